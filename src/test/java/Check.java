@@ -1,0 +1,43 @@
+import java.util.Objects;
+
+/** Counts the answers of a test, prints those that are not due, and ends the test. */
+final class Check {
+    interface Call {
+        Object answer();
+    }
+
+    private static int right = 0;
+    private static int wrong = 0;
+
+    private Check() {
+    }
+
+    static void same(String what, Object got, Object want) {
+        if (Objects.equals(got, want)) {
+            right++;
+        } else {
+            wrong++;
+            System.out.println(what + ": answered " + got + ", due is " + want);
+        }
+    }
+
+    static void fails(String what, Class<? extends RuntimeException> want, Call call) {
+        same(what, outcome(call), "throws " + want.getSimpleName());
+    }
+
+    /** Answers what a call answers, or the name of the exception that it throws. */
+    static Object outcome(Call call) {
+        try {
+            return call.answer();
+        } catch (RuntimeException thrown) {
+            return "throws " + thrown.getClass().getSimpleName();
+        }
+    }
+
+    static void end(String test) {
+        System.out.println(test + ": " + right + " answers as due, " + wrong + " not");
+        if (wrong > 0) {
+            System.exit(1);
+        }
+    }
+}
