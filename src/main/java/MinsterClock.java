@@ -15,6 +15,8 @@ public final class MinsterClock {
     private static final int QUARTER = 900;
     private static final int HOUR = 3600;
     private static final int DAY = 86400;
+    private static final int NO_TUNE = -1;
+    private static final int[] BEATS_FOUND_BOTH_WAYS = {1, 60, 700};
 
     private final Train train;
     private final Pace pace;
@@ -220,10 +222,8 @@ public final class MinsterClock {
         if (!isHour(hour)) {
             throw new IllegalArgumentException("the hour is out of range");
         }
-        if (drum != Bells.NO_TUNE) {
-            requireDrum(drum);
-        }
-        return bells.changeTune(hour, drum);
+        Drum before = bells.changeTune(hour, drum == NO_TUNE ? null : requireDrum(drum));
+        return before == null ? NO_TUNE : before.ownNumber();
     }
 
     public int strokes(int bell) throws IndexOutOfBoundsException {
@@ -271,9 +271,14 @@ public final class MinsterClock {
     }
 
     public boolean isOnce() {
-        return log.isFalling()
-                && areWaysTheSame(1) && areWaysTheSame(60) && areWaysTheSame(700)
-                && bells.strokesOfAllBells() == log.strokesOfAllStrikes();
+        int last = train.size() - 1;
+        boolean holds = log.isFalling() && bells.strokesOfAllBells() == log.strokesOfAllStrikes();
+        for (int i = 0; i < BEATS_FOUND_BOTH_WAYS.length; i++) {
+            int beats = BEATS_FOUND_BOTH_WAYS[i];
+            holds = holds && countByMinutes(beats) == countBySeconds(beats)
+                    && train.movedByRatios(last, beatsPassed + beats) == train.movedByWalking(last, beatsPassed, beats);
+        }
+        return holds;
     }
 
     // What several calls need.
@@ -329,12 +334,6 @@ public final class MinsterClock {
         return dateOfShownZero + wholeDaysShown();
     }
 
-    private boolean areWaysTheSame(int beats) {
-        int last = train.size() - 1;
-        return countByMinutes(beats) == countBySeconds(beats)
-                && train.movedByRatios(last, beatsPassed + beats) == train.movedByWalking(last, beatsPassed, beats);
-    }
-
     private int countByMinutes(int beats) {
         trialHands.copyFrom(hands);
         return goByMinutes(trialHands, pace.secondsOf(beats), false);
@@ -347,7 +346,8 @@ public final class MinsterClock {
         for (int beat = 0; beat < beats; beat++) {
             int seconds = trialPace.letPass(1);
             for (int second = 0; second < seconds; second++) {
-                strokes += goOn(trialHands, 1, false);
+                trialHands.addSeconds(1);
+                strokes += trialHands.isFullMinute() ? comeToFullMinute(trialHands, false) : 0;
             }
         }
         return strokes;
@@ -358,18 +358,15 @@ public final class MinsterClock {
         int left = seconds;
         while (left > 0) {
             int leap = Math.max(1, Math.min(left, walker.secondsToFullMinute()));
-            strokes += goOn(walker, leap, isReal);
+            walker.addSeconds(leap);
+            strokes += walker.isFullMinute() ? comeToFullMinute(walker, isReal) : 0;
             left -= leap;
         }
         return strokes;
     }
 
-    /** Goes on by seconds of which at most the last one makes a full minute; answers the strokes. */
-    private int goOn(Hands walker, int seconds, boolean isReal) {
-        walker.addSeconds(seconds);
-        if (!walker.isFullMinute()) {
-            return 0;
-        }
+    /** Does what a second does that makes the number a multiple of 60; answers the strokes. */
+    private int comeToFullMinute(Hands walker, boolean isReal) {
         int strokes = 0;
         if (walker.reachMark()) {
             strokes = isReal ? strike(walker) : bells.strokesDue(walker.seconds());
@@ -696,12 +693,18 @@ public final class MinsterClock {
     private static final class Drum {
         static final int STEPS = 32;
         static final int LAST_BELL = 8;
+        private final int number;
         private final int[] bellsOfSteps;
         private int pins;
 
-        Drum() {
+        Drum(int number) {
+            this.number = number;
             bellsOfSteps = new int[STEPS];
             pins = 0;
+        }
+
+        int ownNumber() {
+            return number;
         }
 
         int pinCount() {
@@ -710,7 +713,7 @@ public final class MinsterClock {
 
         boolean changePin(int step, int bell, boolean isSet) {
             boolean wasSet = hasPin(step, bell);
-            if (wasSet != isSet && isWithin(step, 0, bellsOfSteps.length - 1)) {
+            if (wasSet != isSet && step >= 0 && step < bellsOfSteps.length) {
                 bellsOfSteps[step] ^= 1 << bell;
                 pins += isSet ? 1 : -1;
             }
@@ -743,15 +746,15 @@ public final class MinsterClock {
         }
 
         private boolean hasPin(int step, int bell) {
-            return isWithin(step, 0, bellsOfSteps.length - 1) && (bellsOfSteps[step] >> bell & 1) == 1;
+            return step >= 0 && step < bellsOfSteps.length && (bellsOfSteps[step] >> bell & 1) == 1;
         }
     }
 
     /** The bells, with the drums and all that says when they strike. */
     private static final class Bells {
-        static final int NO_TUNE = -1;
         private final ArrayList<Drum> drums;
-        private final int[] tunes;
+        // For each hour its drum, or null without a tune.
+        private final Drum[] tunes;
         private final int[] strokesOfBells;
         private int silentFrom;
         private int silentTo;
@@ -759,10 +762,7 @@ public final class MinsterClock {
 
         Bells() {
             drums = new ArrayList<>();
-            tunes = new int[24];
-            for (int hour = 0; hour < tunes.length; hour++) {
-                tunes[hour] = NO_TUNE;
-            }
+            tunes = new Drum[24];
             strokesOfBells = new int[Drum.LAST_BELL + 1];
             silentFrom = 0;
             silentTo = 0;
@@ -774,20 +774,20 @@ public final class MinsterClock {
         }
 
         int makeDrum() {
-            drums.add(new Drum());
-            return drums.size() - 1;
+            int number = drums.size();
+            drums.add(new Drum(number));
+            return number;
         }
 
         Drum drumOrNull(int number) {
-            return isWithin(number, 0, drums.size() - 1) ? drums.get(number) : null;
+            return number >= 0 && number < drums.size() ? drums.get(number) : null;
         }
 
-        int changeTune(int hour, int drum) {
-            if (!isWithin(hour, 0, tunes.length - 1)) {
-                return NO_TUNE;
+        Drum changeTune(int hour, Drum tune) {
+            Drum before = tuneOrNull(hour);
+            if (hour >= 0 && hour < tunes.length) {
+                tunes[hour] = tune;
             }
-            int before = tunes[hour];
-            tunes[hour] = drum;
             return before;
         }
 
@@ -804,7 +804,7 @@ public final class MinsterClock {
         }
 
         int strokesOfBell(int bell) {
-            return isWithin(bell, 0, strokesOfBells.length - 1) ? strokesOfBells[bell] : 0;
+            return bell >= 0 && bell < strokesOfBells.length ? strokesOfBells[bell] : 0;
         }
 
         long strokesOfAllBells() {
@@ -845,7 +845,7 @@ public final class MinsterClock {
         }
 
         private Drum tuneOrNull(int hour) {
-            return isWithin(hour, 0, tunes.length - 1) ? drumOrNull(tunes[hour]) : null;
+            return hour >= 0 && hour < tunes.length ? tunes[hour] : null;
         }
 
         private boolean isSilent(int hour) {

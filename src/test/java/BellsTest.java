@@ -18,6 +18,7 @@ public final class BellsTest {
         promise30();
         promise31();
         tunesArePlayed();
+        tunesOfAllHours();
         promise32();
         promise33();
         promise34And35();
@@ -238,6 +239,22 @@ public final class BellsTest {
         Check.same("the tune as it is now", clock.pass(180), 2 + 3);
     }
 
+    private static void tunesOfAllHours() {
+        for (int hour = 0; hour < 24; hour++) {
+            MinsterClock clock = clockByMarks();
+            clock.addDrum();
+            clock.addDrum();
+            clock.setPin(1, hour, 1 + hour % 8, true);
+            clock.setTune(hour, 1);
+            clock.setQuarters(false);
+            for (int next = 1; next <= 24; next++) {
+                int due = (next + 11) % 12 + 1 + (next % 24 == hour ? 1 : 0);
+                Check.same("the tune of " + hour + " at " + next, clock.pass(180), due);
+            }
+            Check.same("the tune of " + hour + " was played once", clock.strokes(1 + hour % 8), 1);
+        }
+    }
+
     private static void promise32() {
         MinsterClock clock = clockByMarks();
         for (int bell : new int[] {-1, 9, Integer.MIN_VALUE, Integer.MAX_VALUE}) {
@@ -385,6 +402,22 @@ public final class BellsTest {
         checkAhead(back, 899, 0);
         checkAhead(back, 900, 2);
         Check.same("nothing is paid by asking", back.owe(0), -30);
+        MinsterClock much = new MinsterClock();
+        much.setBound(30);
+        much.owe(600);
+        // 60 seconds to the first correction, and 30 to each of the 13 others and to the quarter.
+        checkAhead(much, 479, 0);
+        checkAhead(much, 480, 1);
+        MinsterClock little = new MinsterClock();
+        little.setBound(1);
+        little.owe(600);
+        checkAhead(little, 885, 0);
+        checkAhead(little, 886, 1);
+        MinsterClock none = new MinsterClock();
+        none.setBound(0);
+        none.owe(600);
+        checkAhead(none, 899, 0);
+        checkAhead(none, 900, 1);
         MinsterClock atMark = new MinsterClock();
         atMark.pass(899);
         atMark.owe(-600);

@@ -30,8 +30,17 @@ final class Check {
         try {
             return call.answer();
         } catch (RuntimeException thrown) {
-            return "throws " + thrown.getClass().getSimpleName();
+            return told(thrown);
         }
+    }
+
+    /** Names an exception, and says so if the machine or the library threw it, and not the program by a throw. */
+    static String told(Throwable thrown) {
+        String name = "throws " + thrown.getClass().getSimpleName();
+        StackTraceElement[] trace = thrown.getStackTrace();
+        boolean isOwn = trace.length > 0 && trace[0].getClassName().startsWith("MinsterClock");
+        boolean isDivision = "/ by zero".equals(thrown.getMessage());
+        return isOwn && !isDivision ? name : name + " by itself";
     }
 
     static void end(String test) {

@@ -96,7 +96,8 @@ public final class RandomRunsTest {
             Method own = clock.getClass().getMethod(method.getName(), method.getParameterTypes());
             return String.valueOf(own.invoke(clock, arguments));
         } catch (InvocationTargetException thrown) {
-            return "throws " + thrown.getCause().getClass().getSimpleName();
+            Throwable cause = thrown.getCause();
+            return clock instanceof MinsterClock ? Check.told(cause) : "throws " + cause.getClass().getSimpleName();
         } catch (ReflectiveOperationException missing) {
             return missing.toString();
         }
