@@ -30,13 +30,6 @@ public final class BellsTest {
         Check.end("BellsTest");
     }
 
-    /** A clock of which each call pass(45) brings one mark. */
-    private static MinsterClock clockByMarks() {
-        MinsterClock clock = new MinsterClock();
-        clock.setBeat(20, 1);
-        return clock;
-    }
-
     private static void promise25() {
         MinsterClock clock = new MinsterClock();
         for (int hour : NO_HOURS) {
@@ -44,9 +37,10 @@ public final class BellsTest {
             Check.fails("setSilence(0, " + hour + ")", ARGUMENT, () -> clock.setSilence(0, hour));
         }
         for (int from = 0; from < 24; from++) {
+            MinsterClock silent = new MinsterClock();
             for (int to = 0; to < 24; to++) {
                 int due = to >= from ? to - from : 24 - from + to;
-                Check.same("setSilence " + from + " " + to, clock.setSilence(from, to), due);
+                Check.same("setSilence " + from + " " + to, silent.setSilence(from, to), due);
             }
         }
         Check.same("setSilence(0, 1)", clock.setSilence(0, 1), 1);
@@ -59,7 +53,7 @@ public final class BellsTest {
     private static void promise25Hours() {
         int[][] silences = {{22, 6}, {6, 22}, {0, 23}, {23, 0}, {5, 5}, {0, 0}, {12, 13}, {1, 0}};
         for (int[] silence : silences) {
-            MinsterClock clock = clockByMarks();
+            MinsterClock clock = Clocks.byMarks();
             int from = silence[0];
             int to = silence[1];
             int hours = clock.setSilence(from, to);
@@ -77,7 +71,7 @@ public final class BellsTest {
     }
 
     private static void promise26() {
-        MinsterClock clock = clockByMarks();
+        MinsterClock clock = Clocks.byMarks();
         Check.same("setQuarters(false)", clock.setQuarters(false), true);
         Check.same("setQuarters(false)", clock.setQuarters(false), false);
         Check.same("no quarter", clock.pass(45 * 3), 0);
@@ -202,7 +196,7 @@ public final class BellsTest {
     }
 
     private static void tunesArePlayed() {
-        MinsterClock clock = clockByMarks();
+        MinsterClock clock = Clocks.byMarks();
         clock.addDrum();
         clock.addDrum();
         clock.setPin(0, 0, 1, true);
@@ -241,7 +235,7 @@ public final class BellsTest {
 
     private static void tunesOfAllHours() {
         for (int hour = 0; hour < 24; hour++) {
-            MinsterClock clock = clockByMarks();
+            MinsterClock clock = Clocks.byMarks();
             clock.addDrum();
             clock.addDrum();
             clock.setPin(1, hour, 1 + hour % 8, true);
@@ -256,7 +250,7 @@ public final class BellsTest {
     }
 
     private static void promise32() {
-        MinsterClock clock = clockByMarks();
+        MinsterClock clock = Clocks.byMarks();
         for (int bell : new int[] {-1, 9, Integer.MIN_VALUE, Integer.MAX_VALUE}) {
             Check.fails("strokes(" + bell + ")", INDEX, () -> clock.strokes(bell));
         }
@@ -279,7 +273,7 @@ public final class BellsTest {
     }
 
     private static void promise33() {
-        MinsterClock clock = clockByMarks();
+        MinsterClock clock = Clocks.byMarks();
         clock.pass(44);
         Check.same("none yet", clock.strikes(), 0);
         clock.pass(1);
@@ -295,7 +289,7 @@ public final class BellsTest {
     }
 
     private static void promise34And35() {
-        MinsterClock clock = clockByMarks();
+        MinsterClock clock = Clocks.byMarks();
         int[] wrong = {0, 1, -1, 39, 40, Integer.MIN_VALUE, Integer.MAX_VALUE};
         for (int rank : wrong) {
             Check.fails("markAt(" + rank + ") of an empty log", ELEMENT, () -> clock.markAt(rank));
@@ -325,8 +319,8 @@ public final class BellsTest {
     }
 
     private static void promise34And35Forty() {
-        MinsterClock clock = clockByMarks();
         for (int mark = 1; mark <= 130; mark++) {
+            MinsterClock clock = Clocks.struck(mark - 1);
             clock.pass(45);
             int kept = Math.min(mark, 40);
             for (int rank = 0; rank < kept; rank++) {
@@ -430,7 +424,7 @@ public final class BellsTest {
     }
 
     private static void promise38() {
-        MinsterClock clock = clockByMarks();
+        MinsterClock clock = Clocks.byMarks();
         Check.fails("struckShare at first", ARITHMETIC, () -> clock.struckShare());
         clock.pass(44);
         Check.fails("struckShare before the first mark", ARITHMETIC, () -> clock.struckShare());
@@ -445,7 +439,7 @@ public final class BellsTest {
         Check.same("struckShare: 2 / 4", clock.struckShare(), 0.5f);
         clock.pass(45 * 3);
         Check.same("struckShare: 2 / 7", clock.struckShare(), 2f / 7f);
-        MinsterClock silent = clockByMarks();
+        MinsterClock silent = Clocks.byMarks();
         silent.setSilence(0, 23);
         silent.pass(45);
         Check.same("struckShare: 0 / 1", silent.struckShare(), 0.0f);

@@ -6,10 +6,16 @@ final class Check {
         Object answer();
     }
 
+    private static String subject = "";
     private static int right = 0;
     private static int wrong = 0;
 
     private Check() {
+    }
+
+    /** Names what the next answers are about; each wrong one is printed with it. */
+    static void about(String newSubject) {
+        subject = newSubject.isEmpty() ? "" : newSubject + " | ";
     }
 
     static void same(String what, Object got, Object want) {
@@ -17,7 +23,7 @@ final class Check {
             right++;
         } else {
             wrong++;
-            System.out.println(what + ": answered " + got + ", due is " + want);
+            System.out.println(subject + what + ": answered " + got + ", due is " + want);
         }
     }
 
@@ -41,6 +47,14 @@ final class Check {
         boolean isOwn = trace.length > 0 && trace[0].getClassName().startsWith("MinsterClock");
         boolean isDivision = "/ by zero".equals(thrown.getMessage());
         return isOwn && !isDivision ? name : name + " by itself";
+    }
+
+    static int rightAnswers() {
+        return right;
+    }
+
+    static int wrongAnswers() {
+        return wrong;
     }
 
     static void end(String test) {

@@ -20,11 +20,6 @@ public final class GoingTest {
         Check.end("GoingTest");
     }
 
-    private static int shownBehind(MinsterClock clock, int beats) {
-        clock.pass(beats);
-        return clock.shown();
-    }
-
     private static void promise9() {
         MinsterClock clock = new MinsterClock();
         int[][] wrong = {{0, 1}, {21, 1}, {1, 0}, {1, 21}, {-1, 1}, {1, -1},
@@ -32,33 +27,33 @@ public final class GoingTest {
         for (int[] pair : wrong) {
             Check.fails("setBeat " + pair[0] + " " + pair[1], ARGUMENT, () -> clock.setBeat(pair[0], pair[1]));
         }
-        Check.same("a wrong beat changes nothing", shownBehind(clock, 3), 3);
+        Check.same("a wrong beat changes nothing", Clocks.shownBehind(clock, 3), 3);
         Check.same("setBeat(20, 1)", clock.setBeat(20, 1), 1);
-        Check.same("20 seconds a beat", shownBehind(clock, 2), 43);
+        Check.same("20 seconds a beat", Clocks.shownBehind(clock, 2), 43);
         Check.same("setBeat(7, 20)", clock.setBeat(7, 20), 20);
-        Check.same("3 beats of 7 / 20: 21 / 20", shownBehind(clock, 3), 44);
+        Check.same("3 beats of 7 / 20: 21 / 20", Clocks.shownBehind(clock, 3), 44);
         Check.same("setBeat(20, 20)", clock.setBeat(20, 20), 7);
-        Check.same("a beat of 20 / 20", shownBehind(clock, 1), 45);
+        Check.same("a beat of 20 / 20", Clocks.shownBehind(clock, 1), 45);
         Check.same("setBeat(1, 20)", clock.setBeat(1, 20), 20);
-        Check.same("19 beats of 1 / 20", shownBehind(clock, 19), 45);
-        Check.same("20 beats of 1 / 20", shownBehind(clock, 1), 46);
+        Check.same("19 beats of 1 / 20", Clocks.shownBehind(clock, 19), 45);
+        Check.same("20 beats of 1 / 20", Clocks.shownBehind(clock, 1), 46);
     }
 
     private static void promise9Rest() {
         MinsterClock clock = new MinsterClock();
         clock.setBeat(1, 3);
-        Check.same("2 / 3", shownBehind(clock, 2), 0);
+        Check.same("2 / 3", Clocks.shownBehind(clock, 2), 0);
         Check.fails("a wrong beat", ARGUMENT, () -> clock.setBeat(1, 21));
-        Check.same("a wrong beat keeps the rest", shownBehind(clock, 1), 1);
-        Check.same("1 2/3", shownBehind(clock, 2), 1);
+        Check.same("a wrong beat keeps the rest", Clocks.shownBehind(clock, 1), 1);
+        Check.same("1 2/3", Clocks.shownBehind(clock, 2), 1);
         clock.setBeat(1, 3);
-        Check.same("the rest is lost, though the fraction is the same", shownBehind(clock, 2), 1);
-        Check.same("three thirds since then", shownBehind(clock, 1), 2);
+        Check.same("the rest is lost, though the fraction is the same", Clocks.shownBehind(clock, 2), 1);
+        Check.same("three thirds since then", Clocks.shownBehind(clock, 1), 2);
         clock.setBeat(5, 4);
-        Check.same("5 / 4", shownBehind(clock, 1), 3);
-        Check.same("10 / 4", shownBehind(clock, 1), 4);
-        Check.same("15 / 4", shownBehind(clock, 1), 5);
-        Check.same("20 / 4", shownBehind(clock, 1), 7);
+        Check.same("5 / 4", Clocks.shownBehind(clock, 1), 3);
+        Check.same("10 / 4", Clocks.shownBehind(clock, 1), 4);
+        Check.same("15 / 4", Clocks.shownBehind(clock, 1), 5);
+        Check.same("20 / 4", Clocks.shownBehind(clock, 1), 7);
     }
 
     private static void promise10() {
@@ -105,13 +100,13 @@ public final class GoingTest {
         clock.setBeat(7, 9);
         int[] due = {0, 1, 2, 3, 3, 4, 5, 6, 7, 7};
         for (int beat = 1; beat <= due.length; beat++) {
-            Check.same("shown: " + 7 * beat + " / 9", shownBehind(clock, 1), due[beat - 1]);
+            Check.same("shown: " + 7 * beat + " / 9", Clocks.shownBehind(clock, 1), due[beat - 1]);
         }
-        Check.same("shown: 7 * 5010 / 9", shownBehind(clock, 5000), 3896);
+        Check.same("shown: 7 * 5010 / 9", Clocks.shownBehind(clock, 5000), 3896);
         MinsterClock days = new MinsterClock();
         days.setBeat(20, 1);
-        Check.same("shown goes on behind a day", shownBehind(days, 5000), 100000);
-        Check.same("shown goes on behind a day", shownBehind(days, 5000), 200000);
+        Check.same("shown goes on behind a day", Clocks.shownBehind(days, 5000), 100000);
+        Check.same("shown goes on behind a day", Clocks.shownBehind(days, 5000), 200000);
     }
 
     private static void promise13And14() {
@@ -175,32 +170,32 @@ public final class GoingTest {
     private static void correctionsForward() {
         MinsterClock clock = new MinsterClock();
         clock.owe(7);
-        Check.same("no correction before the full minute", shownBehind(clock, 59), 59);
-        Check.same("at most the bound", shownBehind(clock, 1), 65);
+        Check.same("no correction before the full minute", Clocks.shownBehind(clock, 59), 59);
+        Check.same("at most the bound", Clocks.shownBehind(clock, 1), 65);
         Check.same("it is not owed any more", clock.owe(0), 2);
-        Check.same("no correction in between", shownBehind(clock, 54), 119);
-        Check.same("what is left", shownBehind(clock, 1), 122);
+        Check.same("no correction in between", Clocks.shownBehind(clock, 54), 119);
+        Check.same("what is left", Clocks.shownBehind(clock, 1), 122);
         Check.same("nothing is owed any more", clock.owe(0), 0);
-        Check.same("no correction", shownBehind(clock, 58), 180);
+        Check.same("no correction", Clocks.shownBehind(clock, 58), 180);
         clock.owe(4);
-        Check.same("the full minute is over: no correction", shownBehind(clock, 59), 239);
-        Check.same("less than the bound", shownBehind(clock, 1), 244);
+        Check.same("the full minute is over: no correction", Clocks.shownBehind(clock, 59), 239);
+        Check.same("less than the bound", Clocks.shownBehind(clock, 1), 244);
         clock.owe(12);
         // 56 seconds to 300, which becomes 305; 55 to 360, 365; 55 to 420, 422; 58 to 480.
-        Check.same("corrections within one call", shownBehind(clock, 56 + 55 + 55 + 58 + 1), 481);
+        Check.same("corrections within one call", Clocks.shownBehind(clock, 56 + 55 + 55 + 58 + 1), 481);
     }
 
     private static void correctionsBack() {
         MinsterClock clock = new MinsterClock();
         clock.owe(-7);
-        Check.same("no correction before the full minute", shownBehind(clock, 59), 59);
-        Check.same("back by the bound", shownBehind(clock, 1), 55);
+        Check.same("no correction before the full minute", Clocks.shownBehind(clock, 59), 59);
+        Check.same("back by the bound", Clocks.shownBehind(clock, 1), 55);
         Check.same("still owed", clock.owe(0), -2);
-        Check.same("no correction in between", shownBehind(clock, 4), 59);
-        Check.same("the full minute once more", shownBehind(clock, 1), 58);
+        Check.same("no correction in between", Clocks.shownBehind(clock, 4), 59);
+        Check.same("the full minute once more", Clocks.shownBehind(clock, 1), 58);
         Check.same("nothing is owed any more", clock.owe(0), 0);
-        Check.same("the full minute for the third time", shownBehind(clock, 2), 60);
-        Check.same("and on", shownBehind(clock, 60), 120);
+        Check.same("the full minute for the third time", Clocks.shownBehind(clock, 2), 60);
+        Check.same("and on", Clocks.shownBehind(clock, 60), 120);
     }
 
     private static void correctionsAtMarks() {
@@ -236,9 +231,9 @@ public final class GoingTest {
             back.owe(-600);
         }
         // 60 seconds to the first correction, and 30 to each further one, 120 in all.
-        Check.same("back by 3600", shownBehind(back, 60 + 119 * 30), 30);
+        Check.same("back by 3600", Clocks.shownBehind(back, 60 + 119 * 30), 30);
         Check.same("back by 3600", back.owe(0), 0);
-        Check.same("and on", shownBehind(back, 30), 60);
+        Check.same("and on", Clocks.shownBehind(back, 30), 60);
         MinsterClock on = new MinsterClock();
         on.setBound(30);
         for (int i = 0; i < 6; i++) {
@@ -257,12 +252,12 @@ public final class GoingTest {
         }
         Check.same("setBound(0)", clock.setBound(0), 5);
         clock.owe(40);
-        Check.same("no correction with the bound 0", shownBehind(clock, 60), 60);
+        Check.same("no correction with the bound 0", Clocks.shownBehind(clock, 60), 60);
         Check.same("still owed", clock.owe(0), 40);
         Check.same("setBound(30)", clock.setBound(30), 0);
-        Check.same("by 30", shownBehind(clock, 60), 150);
+        Check.same("by 30", Clocks.shownBehind(clock, 60), 150);
         Check.same("setBound(3)", clock.setBound(3), 30);
-        Check.same("by 3", shownBehind(clock, 30), 183);
+        Check.same("by 3", Clocks.shownBehind(clock, 30), 183);
         Check.same("left", clock.owe(0), 7);
         Check.same("setBound(3)", clock.setBound(3), 3);
     }

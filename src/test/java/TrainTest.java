@@ -230,24 +230,25 @@ public final class TrainTest {
     }
 
     private static void promise7And8FarOn() {
+        for (int beats = 1; beats <= 60; beats++) {
+            MinsterClock clock = oddTrain();
+            MinsterClock later = oddTrain();
+            later.pass(beats);
+            for (int wheel = 0; wheel < 6; wheel++) {
+                int ahead = clock.movedAhead(wheel, beats);
+                Check.same("both ways, wheel " + wheel, clock.movedByBeats(wheel, beats), ahead);
+                Check.same("later, wheel " + wheel, later.moved(wheel), ahead);
+            }
+        }
+    }
+
+    private static MinsterClock oddTrain() {
         MinsterClock clock = new MinsterClock();
         int[][] wheels = {{7, 23}, {11, 19}, {6, 24}, {13, 17}, {9, 22}};
         for (int[] wheel : wheels) {
             clock.pass(37);
             clock.addWheel(wheel[0], wheel[1]);
         }
-        for (int beats = 1; beats <= 60; beats++) {
-            for (int wheel = 0; wheel < 6; wheel++) {
-                int ahead = clock.movedAhead(wheel, beats);
-                Check.same("both ways, wheel " + wheel, clock.movedByBeats(wheel, beats), ahead);
-                MinsterClock later = new MinsterClock();
-                for (int[] own : wheels) {
-                    later.pass(37);
-                    later.addWheel(own[0], own[1]);
-                }
-                later.pass(beats);
-                Check.same("later, wheel " + wheel, later.moved(wheel), ahead);
-            }
-        }
+        return clock;
     }
 }
