@@ -51,9 +51,14 @@ public final class FaceTest {
         "float struckShare() ArithmeticException",
         "boolean isOnce()",
     };
-    private static final List<String> BANNED = List.of("->", "::", "catch", "finally", "synchronized", "assert ",
-            "native", "Exact(", "System.", "String.", "Float.", "Double.", "Objects.", "random", "nanoTime",
-            "currentTime", "equals(", "hashCode", "toString", "instanceof", "static {", "public static");
+    // What LANGUAGE.md rules out and a line shows by itself; what it allows in one place only is left to the reader.
+    private static final List<String> BANNED = List.of("::", "finally", "synchronized", "assert ", "native ", "Exact(",
+            "System.out", "System.err", "System.in", "System.nano", "System.current", "System.get", "System.exit",
+            "Float.", "Double.", "Objects.", "Thread", "Random", "random(", "hashCode", "getMessage", "static {",
+            "public static", "protected ", "package ");
+    private static final List<String> IMPORTS = List.of("import java.util.*;", "import java.util.ArrayList;",
+            "import java.util.Arrays;", "import java.util.Iterator;", "import java.util.List;",
+            "import java.util.NoSuchElementException;");
 
     public static void main(String[] args) throws IOException {
         face();
@@ -115,18 +120,12 @@ public final class FaceTest {
                 Check.same(method.getName() + " is no name of the face", open.contains(method.getName()), false);
             }
         }
-        for (Class<?> inside : MinsterClock.class.getDeclaredClasses()) {
-            for (Method method : inside.getDeclaredMethods()) {
-                Check.same(method.getName() + " is no name of the face", open.contains(method.getName()), false);
-            }
-        }
     }
 
     private static void classesInside() {
         Class<?>[] inside = MinsterClock.class.getDeclaredClasses();
         Check.same("at most 12 classes", inside.length + 1 <= 12, true);
         for (Class<?> type : inside) {
-            Check.same(type + " is static", Modifier.isStatic(type.getModifiers()), true);
             Check.same(type + " is not public", Modifier.isPublic(type.getModifiers()), false);
             int fields = 0;
             for (Field field : type.getDeclaredFields()) {
@@ -145,10 +144,11 @@ public final class FaceTest {
             for (String banned : BANNED) {
                 Check.same("line " + (i + 1) + " holds " + banned, code.contains(banned), false);
             }
-            Check.same("line " + (i + 1) + " is plain", line.chars().allMatch(c -> c >= 32 && c < 127), true);
+            boolean isLambda = code.contains("->") && !code.contains("case ") && !code.contains("default ");
+            Check.same("line " + (i + 1) + " holds a lambda", isLambda, false);
+            Check.same("line " + (i + 1) + " is plain", code.chars().allMatch(c -> c == 9 || c >= 32 && c < 127), true);
             if (code.startsWith("import ")) {
-                Check.same(code, code.equals("import java.util.ArrayList;")
-                        || code.equals("import java.util.NoSuchElementException;"), true);
+                Check.same(code, IMPORTS.contains(code), true);
             }
         }
     }

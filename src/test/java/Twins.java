@@ -33,15 +33,19 @@ final class Twins {
         return clock;
     }
 
-    /** Asks all that can be asked, and what comes of it; this changes the clock, in some 300 calls. */
+    /**
+     * Asks all that can be asked, and what comes of it; this changes the clock, in some 300 calls. What may be refused
+     * is asked last: a refusal that spoils something would else spoil it in both clocks before it can be seen.
+     */
     private static List<Object> answers(MinsterClock clock) {
         List<Object> answers = new ArrayList<>();
         askTrain(clock, answers);
         askState(clock, answers);
         askLog(clock, answers);
-        askDrums(clock, answers);
         letPass(clock, answers);
         askSettings(clock, answers);
+        askDrums(clock, answers);
+        askLimits(clock, answers);
         return answers;
     }
 
@@ -65,8 +69,9 @@ final class Twins {
         answers.add(clock.shown());
         answers.add(Clocks.time(clock));
         answers.add(Clocks.date(clock));
-        answers.add(clock.strikes());
-        ask(answers, clock::struckShare);
+        int strikes = clock.strikes();
+        answers.add(strikes);
+        answers.add(strikes > 0 ? clock.struckShare() : 0.0f);
         for (int bell = 0; bell <= 8; bell++) {
             answers.add(clock.strokes(bell));
         }
@@ -79,11 +84,10 @@ final class Twins {
             answers.add(mark);
             answers.add(clock.strokesAt(mark));
         }
-        ask(answers, () -> clock.markAt(kept));
     }
 
     private static void askDrums(MinsterClock clock, List<Object> answers) {
-        for (int drum = 0; drum < 4; drum++) {
+        for (int drum = 0; drum <= 4; drum++) {
             int number = drum;
             Object pins = Check.outcome(() -> clock.pins(number));
             answers.add(pins);
@@ -115,7 +119,12 @@ final class Twins {
         for (int hour = 0; hour < 24; hour++) {
             answers.add(clock.setTune(hour, -1));
         }
+    }
+
+    private static void askLimits(MinsterClock clock, List<Object> answers) {
+        ask(answers, clock::struckShare);
+        ask(answers, () -> clock.markAt(clock.strikes()));
         ask(answers, () -> clock.addWheel(6, 6));
-        ask(answers, () -> clock.addDrum());
+        ask(answers, clock::addDrum);
     }
 }
