@@ -38,19 +38,33 @@ final class DatesSentences {
         s.promise(17, "Returns the day of the week of this date, 0 for Monday.", DatesSentences::weekdaySet);
         s.promise(17, "Throws `IllegalArgumentException` if there is no such date, or the year is less than 1600",
                 DatesSentences::noDateToSet);
-        s.promise(18, "Returns the year.", DatesSentences::yearShown);
-        s.promise(19, "Returns the month, 1 to 12.", DatesSentences::monthShown);
-        s.promise(20, "Returns the day.", DatesSentences::dayShown);
-        s.promise(21, "Returns the day of the week, 0 for Monday.", DatesSentences::weekdayShown);
+        testShown(s);
+        s.promise(22, "Returns whether a year is a leap year.", DatesSentences::leapYearOfAnyDate);
         s.promise(22, YEAR, DatesSentences::yearsToAsk);
         s.promise(22, "Returns whether it is.", DatesSentences::leapYears);
         s.promise(22, "Throws `IllegalArgumentException` if the year is out of range", DatesSentences::noYear);
+        s.promise(23, "Returns the number of a date, found from the numbers of years.",
+                () -> numberAtAnyDate(NUMBERED));
         testNumbers(s, 23, NUMBERED);
         s.promise(23, "Returns the number.", () -> someNumbers(NUMBERED));
         testNumbers(s, 24, COUNTED);
         s.promise(24, "Returns the number.", () -> someNumbers(COUNTED));
         s.promise(24, "Returns the same number, found by counting years and months one by one.",
-                DatesSentences::sameNumber);
+                () -> {
+                    sameNumber();
+                    numberAtAnyDate(COUNTED);
+                });
+    }
+
+    private static void testShown(Sentences s) {
+        s.promise(18, "Returns the year that is shown.", DatesSentences::yearByTheHands);
+        s.promise(18, "Returns the year.", DatesSentences::yearShown);
+        s.promise(19, "Returns the month that is shown.", DatesSentences::monthByTheHands);
+        s.promise(19, "Returns the month, 1 to 12.", DatesSentences::monthShown);
+        s.promise(20, "Returns the day of the month that is shown.", DatesSentences::dayByTheHands);
+        s.promise(20, "Returns the day.", DatesSentences::dayShown);
+        s.promise(21, "Returns the day of the week that is shown.", DatesSentences::weekdayByTheHands);
+        s.promise(21, "Returns the day of the week, 0 for Monday.", DatesSentences::weekdayShown);
     }
 
     private static void testNumbers(Sentences s, int promise, Dated call) {
@@ -255,6 +269,99 @@ final class DatesSentences {
         MinsterClock clock = Clocks.at(86399);
         clock.setDate(year, month, day);
         return clock;
+    }
+
+    private static void yearByTheHands() {
+        // The year 2000 has 366 days.
+        MinsterClock clock = Clocks.at(366 * 86400 - 1);
+        Check.same("the last second of 2000", Clocks.date(clock), "2000-12-31 6");
+        Check.same("its year", clock.year(), 2000);
+        clock.owe(-1);
+        clock.pass(1);
+        Check.same("midnight, and back below it", clock.year(), 2000);
+        clock.pass(1);
+        Check.same("the first second of 2001", clock.year(), 2001);
+        clock.setDate(1600, 1, 1);
+        Check.same("as it was set", clock.year(), 1600);
+        Check.same("another clock has its own", new MinsterClock().year(), 2000);
+    }
+
+    private static void monthByTheHands() {
+        MinsterClock january = Clocks.at(31 * 86400 - 1);
+        Check.same("the last second of January", january.month(), 1);
+        january.pass(1);
+        Check.same("the first second of February", january.month(), 2);
+        // The February of 2000 has 29 days.
+        MinsterClock february = Clocks.at(60 * 86400 - 1);
+        Check.same("the last second of February", february.month(), 2);
+        february.owe(-1);
+        february.pass(1);
+        Check.same("midnight, and back below it", february.month(), 2);
+        february.pass(1);
+        Check.same("the first second of March", february.month(), 3);
+        february.setDate(2023, 12, 31);
+        Check.same("as it was set", february.month(), 12);
+    }
+
+    private static void dayByTheHands() {
+        MinsterClock clock = Clocks.at(40 * 86400);
+        Check.same("the 41st day of the year is the 10 February", clock.day(), 10);
+        clock.setBeat(20, 1);
+        clock.pass(4319);
+        Check.same("it stays for the day", clock.day(), 10);
+        clock.owe(-1);
+        clock.pass(1);
+        Check.same("midnight, and back below it", clock.day(), 10);
+        clock.pass(1);
+        Check.same("the next one", clock.day(), 11);
+        clock.setDate(2023, 12, 31);
+        Check.same("as it was set", clock.day(), 31);
+    }
+
+    private static void weekdayByTheHands() {
+        MinsterClock clock = Clocks.at(86399);
+        Check.same("1 January 2000, a Saturday", clock.weekday(), 5);
+        clock.pass(1);
+        Check.same("2 January, a Sunday", clock.weekday(), 6);
+        clock.setBeat(20, 1);
+        clock.pass(4319);
+        Check.same("it stays for the day", clock.weekday(), 6);
+        clock.owe(-1);
+        clock.pass(1);
+        Check.same("midnight, and back below it", clock.weekday(), 6);
+        clock.pass(1);
+        Check.same("3 January, a Monday", clock.weekday(), 0);
+        clock.setDate(2024, 2, 29);
+        Check.same("as it was set, a Thursday", clock.weekday(), 3);
+    }
+
+    private static void leapYearOfAnyDate() {
+        for (int shown : new int[] {1600, 1900, 2000, 2023, 3000}) {
+            MinsterClock clock = eveOf(shown, 12, 31);
+            String told = "in " + shown + ", ";
+            Check.same(told + "2024, by 4", clock.isLeap(2024), true);
+            Check.same(told + "2023", clock.isLeap(2023), false);
+            Check.same(told + "1900, by 100", clock.isLeap(1900), false);
+            Check.same(told + "2000, by 400", clock.isLeap(2000), true);
+            Check.same(told + "the same date is shown", clock.year(), shown);
+        }
+    }
+
+    /** The number of a date has nothing to do with the date that is shown. */
+    private static void numberAtAnyDate(Dated call) {
+        for (int shown : new int[] {1600, 2000, 3000}) {
+            MinsterClock clock = eveOf(shown, 12, 31);
+            // 1969 years have 1969 * 365 days and 492 - 19 + 4 leap days.
+            Check.same("1970-1-1, in " + shown, call.ask(clock, 1970, 1, 1), 719163L);
+            Check.same("1970-1-2, in " + shown, call.ask(clock, 1970, 1, 2), 719164L);
+            // 400 years have 146097 days.
+            Check.same("401-1-1, in " + shown, call.ask(clock, 401, 1, 1), 146098L);
+            Check.same("400-12-31, in " + shown, call.ask(clock, 400, 12, 31), 146097L);
+            Check.same("2800-12-31, in " + shown, call.ask(clock, 2800, 12, 31), 7 * 146097L);
+            Check.same("100-12-31, in " + shown, call.ask(clock, 100, 12, 31), 36524L);
+            Check.same("the same date is shown", clock.year() + " " + clock.month() + " " + clock.day(),
+                    shown + " 12 31");
+        }
     }
 
     private static void yearShown() {

@@ -8,6 +8,7 @@ final class DrumsSentences {
     private static final Class<NoSuchElementException> ELEMENT = NoSuchElementException.class;
     private static final int[] FAR = {Integer.MIN_VALUE, Integer.MAX_VALUE};
     private static final String NO_DRUM = "Throws `IndexOutOfBoundsException` if there is no such drum";
+    private static final String DRUM = "`drum`: the number of the drum";
     private static final String PINS = "A drum has pins; a pin has a step from 0 to 31 and a bell from 1 to 8.";
 
     /** A question about a drum. */
@@ -26,6 +27,29 @@ final class DrumsSentences {
         s.promise(27, "Adds a drum without pins.", DrumsSentences::withoutPins);
         s.promise(27, "Returns the number of the drum.", DrumsSentences::numberOfAddedDrum);
         s.promise(27, "Throws `IllegalStateException` if there are 4 drums", DrumsSentences::fifthDrum);
+        testPins(s);
+        s.promise(30, "Returns the bell of a pin of a drum, the pins being ordered by steps, and those of the same step"
+                + " by bells.", DrumsSentences::orderOfPins);
+        s.promise(30, DRUM, DrumsSentences::bellsOfDrums);
+        s.promise(30, "`index`: the index in this order, from 0", DrumsSentences::indexes);
+        s.promise(30, "Returns the bell.", DrumsSentences::bellsOfPins);
+        s.promise(30, NO_DRUM, () -> noSuchDrum("bellAt", (clock, drum) -> clock.bellAt(drum, 0)));
+        s.promise(30, "Throws `NoSuchElementException` if there is no such pin", DrumsSentences::noSuchPin);
+        s.promise(31, "Sets the tune for an hour of the day.", DrumsSentences::setsTheTune);
+        s.promise(31, "`hour`: the hour, 0 to 23", DrumsSentences::hoursOfTunes);
+        s.promise(31, "`drum`: the number of the drum, or -1 for no tune", DrumsSentences::drumsOfTunes);
+        s.promise(31, "Returns the number of the drum before, or -1 without a tune.", DrumsSentences::drumBefore);
+        s.promise(31, "Throws `IllegalArgumentException` if the hour is out of range", DrumsSentences::noHour);
+        s.promise(31, "Throws `IndexOutOfBoundsException` if the drum is neither -1 nor the number of one",
+                DrumsSentences::noDrumForTune);
+    }
+
+    private static void testPins(Sentences s) {
+        s.promise(28, "Sets or takes away a pin.", DrumsSentences::setsOrTakesAway);
+        s.promise(28, DRUM, DrumsSentences::drumOfThePin);
+        s.promise(28, "`step`: the step", DrumsSentences::stepsOfPins);
+        s.promise(28, "`bell`: the bell", DrumsSentences::bellsOfAStep);
+        s.promise(28, "`isSet`: whether the pin is there from now on", DrumsSentences::thereFromNowOn);
         s.promise(28, "Returns whether it was there before.", DrumsSentences::wasThereBefore);
         s.promise(28, NO_DRUM, () -> {
             noSuchDrum("setPin", (clock, drum) -> clock.setPin(drum, 0, 1, true));
@@ -33,20 +57,10 @@ final class DrumsSentences {
         });
         s.promise(28, "Throws `IllegalArgumentException` if the step or the bell is out of range",
                 DrumsSentences::noStepOrBell);
+        s.promise(29, "Returns the number of pins of a drum.", DrumsSentences::pinsAsTheyAre);
+        s.promise(29, DRUM, DrumsSentences::pinsOfDrums);
         s.promise(29, "Returns the number of pins.", DrumsSentences::numberOfPins);
         s.promise(29, NO_DRUM, () -> noSuchDrum("pins", MinsterClock::pins));
-        s.promise(30, "Returns the bell of a pin of a drum, the pins being ordered by steps, and those of the same step"
-                + " by bells.", DrumsSentences::orderOfPins);
-        s.promise(30, "`index`: the index in this order, from 0", DrumsSentences::indexes);
-        s.promise(30, "Returns the bell.", DrumsSentences::bellsOfPins);
-        s.promise(30, NO_DRUM, () -> noSuchDrum("bellAt", (clock, drum) -> clock.bellAt(drum, 0)));
-        s.promise(30, "Throws `NoSuchElementException` if there is no such pin", DrumsSentences::noSuchPin);
-        s.promise(31, "`hour`: the hour, 0 to 23", DrumsSentences::hoursOfTunes);
-        s.promise(31, "`drum`: the number of the drum, or -1 for no tune", DrumsSentences::drumsOfTunes);
-        s.promise(31, "Returns the number of the drum before, or -1 without a tune.", DrumsSentences::drumBefore);
-        s.promise(31, "Throws `IllegalArgumentException` if the hour is out of range", DrumsSentences::noHour);
-        s.promise(31, "Throws `IndexOutOfBoundsException` if the drum is neither -1 nor the number of one",
-                DrumsSentences::noDrumForTune);
     }
 
     private static void atMost4Drums() {
@@ -160,6 +174,158 @@ final class DrumsSentences {
             four.addDrum();
             four.addDrum();
         }, STATE, MinsterClock::addDrum);
+    }
+
+    private static void setsOrTakesAway() {
+        MinsterClock clock = Clocks.withDrums(1);
+        clock.setQuarters(false);
+        clock.setTune(1, 0);
+        clock.setTune(2, 0);
+        clock.setTune(3, 0);
+        clock.setPin(0, 4, 6, true);
+        clock.setPin(0, 5, 7, true);
+        Check.same("set", clock.pins(0) + " " + clock.bellAt(0, 0) + " " + clock.bellAt(0, 1), "2 6 7");
+        Check.same("they are played, though the tune was set before them", clock.pass(3600), 1 + 2);
+        clock.setPin(0, 4, 6, false);
+        Check.same("taken away", clock.pins(0) + " " + clock.bellAt(0, 0), "1 7");
+        Check.same("only the other one is played", clock.pass(3600), 2 + 1);
+        clock.setPin(0, 4, 6, true);
+        Check.same("set anew", clock.pins(0) + " " + clock.bellAt(0, 0) + " " + clock.bellAt(0, 1), "2 6 7");
+        Check.same("they are played", clock.pass(3600), 3 + 2);
+        Check.same("the bells", clock.strokes(6) + " " + clock.strokes(7), "2 3");
+    }
+
+    private static void drumOfThePin() {
+        for (int chosen = 0; chosen <= 3; chosen++) {
+            MinsterClock clock = Clocks.withDrums(4);
+            Check.same("not there yet", clock.setPin(chosen, 9, 4, true), false);
+            for (int drum = 0; drum <= 3; drum++) {
+                Check.same("set on " + chosen + ", pins of " + drum, clock.pins(drum), drum == chosen ? 1 : 0);
+                Check.same("set on " + chosen + ", on " + drum, clock.setPin(drum, 9, 4, true), drum == chosen);
+            }
+            clock.setPin(chosen, 9, 4, false);
+            for (int drum = 0; drum <= 3; drum++) {
+                Check.same("taken from " + chosen + ", pins of " + drum, clock.pins(drum), drum == chosen ? 0 : 1);
+            }
+        }
+    }
+
+    private static void stepsOfPins() {
+        MinsterClock clock = Clocks.withDrums(1);
+        for (int step = 31; step >= 0; step--) {
+            Check.same("step " + step, clock.setPin(0, step, 1 + step % 8, true), false);
+            Check.same("it comes before those of later steps", clock.bellAt(0, 0), 1 + step % 8);
+        }
+        for (int step = 0; step <= 31; step++) {
+            Check.same("the pin of step " + step, clock.bellAt(0, step), 1 + step % 8);
+        }
+        for (int step = 0; step <= 31; step++) {
+            Check.same("taken from step " + step, clock.setPin(0, step, 1 + step % 8, false), true);
+            Check.same("those of other steps are left", clock.pins(0), 31 - step);
+        }
+    }
+
+    private static void bellsOfAStep() {
+        MinsterClock clock = Clocks.withDrums(1);
+        clock.setQuarters(false);
+        clock.setTune(1, 0);
+        for (int bell = 8; bell >= 2; bell -= 2) {
+            Check.same("bell " + bell, clock.setPin(0, 17, bell, true), false);
+            Check.same("it comes before those of greater bells", clock.bellAt(0, 0), bell);
+        }
+        clock.pass(3600);
+        for (int bell = 1; bell <= 8; bell++) {
+            Check.same("the strokes of bell " + bell, clock.strokes(bell), bell % 2 == 0 ? 1 : 0);
+            Check.same("bell " + bell + " was there", clock.setPin(0, 17, bell, false), bell % 2 == 0);
+        }
+        Check.same("none is left", clock.pins(0), 0);
+    }
+
+    private static void thereFromNowOn() {
+        MinsterClock clock = Clocks.withDrums(1);
+        clock.setPin(0, 3, 2, true);
+        clock.setPin(0, 3, 2, true);
+        Check.same("set twice, there once", clock.pins(0), 1);
+        clock.pass(3600);
+        clock.pass(3600);
+        Check.same("still there, hours later", clock.setPin(0, 3, 2, true), true);
+        clock.setPin(0, 3, 2, false);
+        clock.setPin(0, 3, 2, false);
+        Check.same("taken away twice", clock.pins(0), 0);
+        Check.fails("no pin any more", ELEMENT, () -> clock.bellAt(0, 0));
+        clock.setPin(0, 3, 2, true);
+        Check.same("there again after one call", clock.pins(0) + " " + clock.bellAt(0, 0), "1 2");
+    }
+
+    private static void pinsAsTheyAre() {
+        MinsterClock clock = Clocks.withDrums(1);
+        for (int step = 0; step <= 31; step++) {
+            clock.setPin(0, step, 1 + step / 4, true);
+            Check.same("with each pin one more", clock.pins(0), step + 1);
+        }
+        Check.same("asking changes none", clock.pins(0), 32);
+        clock.setTune(1, 0);
+        clock.pass(3600);
+        Check.same("nor does playing", clock.pins(0), 32);
+        clock.setTune(1, -1);
+        Check.same("nor taking the tune away", clock.pins(0), 32);
+        for (int step = 0; step <= 31; step++) {
+            clock.setPin(0, step, 1 + step / 4, false);
+            Check.same("one less with each that is taken away", clock.pins(0), 31 - step);
+        }
+    }
+
+    /** Four drums, of which each has one pin more than the one before it, all of a bell of their own. */
+    private static MinsterClock unlikeDrums() {
+        MinsterClock clock = Clocks.withDrums(4);
+        for (int drum = 0; drum <= 3; drum++) {
+            for (int step = 0; step <= drum; step++) {
+                clock.setPin(drum, step, 8 - drum, true);
+            }
+        }
+        return clock;
+    }
+
+    private static void pinsOfDrums() {
+        MinsterClock clock = unlikeDrums();
+        for (int drum = 0; drum <= 3; drum++) {
+            Check.same("the drum " + drum, clock.pins(drum), drum + 1);
+        }
+        for (int drum = 3; drum >= 0; drum--) {
+            Check.same("the drum " + drum + " once more", clock.pins(drum), drum + 1);
+        }
+    }
+
+    private static void bellsOfDrums() {
+        MinsterClock clock = unlikeDrums();
+        for (int drum = 0; drum <= 3; drum++) {
+            int asked = drum;
+            Check.same("the first of the drum " + drum, clock.bellAt(drum, 0), 8 - drum);
+            Check.same("the last of the drum " + drum, clock.bellAt(drum, drum), 8 - drum);
+            Check.fails("no more of the drum " + drum, ELEMENT, () -> clock.bellAt(asked, asked + 1));
+        }
+    }
+
+    private static void setsTheTune() {
+        MinsterClock clock = Clocks.withDrums(2);
+        clock.setQuarters(false);
+        clock.setPin(0, 0, 2, true);
+        clock.setPin(1, 0, 3, true);
+        clock.setPin(1, 1, 3, true);
+        clock.setTune(1, 0);
+        clock.setTune(1, 1);
+        clock.setTune(3, 0);
+        Check.same("setting plays nothing", clock.strokes(2) + clock.strokes(3), 0);
+        Check.same("the latest drum counts for the hour 1", clock.pass(3600), 1 + 2);
+        Check.same("the hour 2 has no tune", clock.pass(3600), 2);
+        Check.same("the hour 3 has its own", clock.pass(3600), 3 + 1);
+        clock.setTune(3, -1);
+        clock.setBeat(20, 1);
+        Check.same("up to 1:00 of the next day: 4 to 12, 1 to 12, and 1 with its tune", clock.pass(180 * 22),
+                72 + 78 + 1 + 2);
+        Check.same("the hour 2 still has none", clock.pass(180), 2);
+        Check.same("nor the hour 3 any more", clock.pass(180), 3);
+        Check.same("a drum for two hours", clock.setTune(22, 1) + clock.setTune(23, 1), -2);
     }
 
     private static void wasThereBefore() {

@@ -5,6 +5,7 @@ import java.lang.reflect.Method;
 import java.lang.reflect.Modifier;
 import java.nio.file.Files;
 import java.nio.file.Path;
+import java.util.ArrayList;
 import java.util.Arrays;
 import java.util.List;
 import java.util.TreeSet;
@@ -62,6 +63,7 @@ public final class FaceTest {
 
     public static void main(String[] args) throws IOException {
         face();
+        faceOfDocument(Files.readAllLines(Path.of("../shared/DOC.md")));
         membersAreHidden(MinsterClock.class);
         noNameTwice();
         classesInside();
@@ -95,6 +97,28 @@ public final class FaceTest {
         Check.same("one constructor", constructors.length, 1);
         Check.same("it is public", constructors[0].getModifiers(), Modifier.PUBLIC);
         Check.same("it takes nothing", constructors[0].getParameterCount(), 0);
+    }
+
+    /** The document tells each call twice, in its face and above its promise, and both in the order of the promises. */
+    private static void faceOfDocument(List<String> document) {
+        List<String> listed = new ArrayList<>();
+        List<String> promised = new ArrayList<>();
+        for (String line : document) {
+            if (line.startsWith("    public ") && line.endsWith(";")) {
+                listed.add(inShort(line.substring(11, line.length() - 1)));
+            }
+            if (line.startsWith("`") && line.contains("`: ")) {
+                promised.add(inShort(line.substring(1, line.indexOf("`: "))));
+            }
+        }
+        List<String> due = new ArrayList<>(Arrays.asList(FACE));
+        due.add(0, "MinsterClock()");
+        Check.same("the face in the document", listed, due);
+        Check.same("the promises in the document", promised, due);
+    }
+
+    private static String inShort(String call) {
+        return call.replaceAll("(int|boolean) \\w+(?=[,)])", "$1").replace(" throws ", " ").replace(", ", ",");
     }
 
     private static void membersAreHidden(Class<?> type) {

@@ -1,9 +1,6 @@
-/** The sentences about beats, hands and corrections: promises 9 to 16, and their paragraphs of the terms. */
+/** The sentences about beats and hands: promises 9 to 14, and the paragraphs 'Beats' and 'Hands'. */
 final class GoingSentences {
     private static final Class<IllegalArgumentException> ARGUMENT = IllegalArgumentException.class;
-    private static final String CORRECTION = "Whenever a second that passes makes the number that is shown a multiple"
-            + " of 60, and after a strike that this brings, the number is made greater by what is owed, but at most the"
-            + " bound, or less by what is owed to go back, but at most the bound; this is not owed any more.";
     private static final String BEAT = "The seconds that have passed are the sum of these fractions, of which only"
             + " whole seconds move the hands; the rest is kept, and is lost when the fraction is set.";
 
@@ -11,6 +8,9 @@ final class GoingSentences {
     }
 
     static void test(Sentences s) {
+        s.whatItIs(10, "A clock of a tower with its carillon: a train of wheels passes on the beats, hands show the"
+                + " time, bells strike the hours and the quarters, drums with pins play tunes, and errors are corrected"
+                + " by little.", GoingSentences::allOfIt);
         s.whatItIs(12, "An object is used for at most 512 calls after it has been made; what later calls answer is"
                 + " free.", GoingSentences::farthestIn512Calls);
         s.terms(11, "Time passes by beats; wheels, hands, bells and pins are asked.", GoingSentences::asked);
@@ -24,39 +24,45 @@ final class GoingSentences {
         s.terms(12, "Each whole second that passes makes it greater by 1.", GoingSentences::greaterBy1);
         s.terms(13, "The hour, the minute and the second are found from it as usual; a day has 86400 seconds.",
                 GoingSentences::timesOfTheDay);
-        s.terms(15, "Some seconds are owed, 0 at first, more than 0 if the clock is to go forward.",
-                GoingSentences::owed);
-        s.terms(16, "The bound, 5 at first, is from 0 to 30.", GoingSentences::bounds);
-        testCorrections(s);
         testPromises(s);
     }
 
-    private static void testCorrections(Sentences s) {
-        s.terms(10, CORRECTION, GoingSentences::atMultiplesOf60);
-        s.terms(10, CORRECTION, GoingSentences::onlyWhenASecondPasses);
-        s.terms(10, CORRECTION, GoingSentences::wheneverItComesAgain);
-        s.terms(10, CORRECTION, GoingSentences::afterTheStrike);
-        s.terms(16, CORRECTION, GoingSentences::atMostTheBound);
-        s.terms(15, CORRECTION, GoingSentences::notOwedAnyMore);
-    }
-
     private static void testPromises(Sentences s) {
+        s.promise(9, "Sets how long a beat takes.", GoingSentences::setsTheBeat);
+        s.promise(9, "`numerator`: the numerator", GoingSentences::numerators);
+        s.promise(9, "`denominator`: the denominator", GoingSentences::denominators);
         s.promise(9, "Returns the numerator before.", GoingSentences::numeratorBefore);
         s.promise(9, "Throws `IllegalArgumentException` if a number is out of range", GoingSentences::wrongFraction);
+        s.promise(10, "Lets beats pass.", GoingSentences::letsBeatsPass);
         s.promise(10, "`beats`: the number of beats, 1 to 5000", GoingSentences::beatsThatPass);
         s.promise(10, "Returns the number of strokes.", GoingSentences::strokesThatPass);
         s.promise(10, "Throws `IllegalArgumentException` if the number is out of range", GoingSentences::wrongBeats);
         s.promise(11, "Returns the number of beats so far.", GoingSentences::beatsSoFar);
         s.promise(11, "Returns the number of beats.", GoingSentences::beatsAndNotSeconds);
+        s.promise(12, "Returns the number of seconds that is shown.", GoingSentences::shownAndNotPassed);
         s.promise(12, "Returns the number of seconds.", GoingSentences::secondsShown);
+        s.promise(13, "Returns the hour that is shown.", GoingSentences::hourShown);
         s.promise(13, "Returns the hour, 0 to 23.", GoingSentences::hours);
+        s.promise(14, "Returns the minute that is shown.", GoingSentences::minuteShown);
         s.promise(14, "Returns the minute, 0 to 59.", GoingSentences::minutes);
-        s.promise(15, "`seconds`: the seconds, -600 to 600", GoingSentences::secondsToOwe);
-        s.promise(15, "Returns the seconds that are owed after the call.", GoingSentences::owedAfterTheCall);
-        s.promise(15, "Throws `IllegalArgumentException` if the seconds are out of range, or more than 3600 would be"
-                + " owed, forward or back", GoingSentences::tooMuchOwed);
-        s.promise(16, "Returns the bound before.", GoingSentences::boundBefore);
-        s.promise(16, "Throws `IllegalArgumentException` if the bound is out of range", GoingSentences::wrongBound);
+    }
+
+    private static void allOfIt() {
+        MinsterClock clock = Clocks.withDrums(1);
+        clock.addWheel(60, 10);
+        clock.setPin(0, 0, 5, true);
+        clock.setPin(0, 1, 8, true);
+        clock.setTune(1, 0);
+        clock.owe(12);
+        // 5, 5 and 2 seconds of the 12 are corrected at 1, 2 and 3 minutes, so that 3588 beats bring a full hour.
+        Check.same("the hour 1 is not yet struck", clock.pass(3587), 1 + 2 + 3);
+        Check.same("the hour 1, and its tune", clock.pass(1), 1 + 2);
+        Check.same("wheels pass on the beats: 3588 * 10 / 30", clock.moved(1), 1196);
+        Check.same("hands show the time", clock.shown() + " " + Clocks.time(clock), "3600 1:0");
+        Check.same("a bell strikes the hours", clock.strokes(0), 1);
+        Check.same("a bell strikes the quarters", clock.strokes(1), 6);
+        Check.same("bells play the tune", clock.strokes(5) + " " + clock.strokes(8), "1 1");
+        Check.same("nothing is wrong any more", clock.owe(0), 0);
     }
 
     private static void farthestIn512Calls() {
@@ -222,146 +228,43 @@ final class GoingSentences {
         }
     }
 
-    private static void owed() {
+    private static void setsTheBeat() {
         MinsterClock clock = new MinsterClock();
-        Check.same("at first", clock.owe(0), 0);
-        Check.same("nothing owed, nothing corrected", Clocks.shownBehind(clock, 60), 60);
-        MinsterClock forward = Clocks.owing(1);
-        Check.same("1 owed goes forward", Clocks.shownBehind(forward, 60), 61);
-        MinsterClock back = Clocks.owing(-1);
-        Check.same("-1 owed goes back", Clocks.shownBehind(back, 60), 59);
+        clock.pass(10);
+        clock.setBeat(3, 1);
+        Check.same("it moves nothing itself", clock.shown() + " " + clock.beats(), "10 10");
+        Check.same("4 beats of 3 / 1", Clocks.shownBehind(clock, 4), 10 + 12);
+        clock.setBeat(1, 4);
+        Check.same("8 beats of 1 / 4", Clocks.shownBehind(clock, 8), 22 + 2);
+        clock.setBeat(20, 1);
+        clock.setBeat(3, 2);
+        Check.same("the latest one counts, 4 beats of 3 / 2", Clocks.shownBehind(clock, 4), 24 + 6);
+        Check.same("it stays for the next ones", Clocks.shownBehind(clock, 2), 30 + 3);
+        MinsterClock other = new MinsterClock();
+        Check.same("another clock has its own", Clocks.shownBehind(other, 4), 4);
     }
 
-    private static void bounds() {
-        MinsterClock first = new MinsterClock();
-        Check.same("5 at first", first.setBound(5), 5);
-        Check.same("5 at first, as it works", Clocks.shownBehind(Clocks.owing(6), 60), 65);
-        for (int bound = 0; bound <= 30; bound++) {
-            MinsterClock clock = Clocks.owing(600);
-            clock.setBound(bound);
-            Check.same("the bound " + bound, Clocks.shownBehind(clock, 60), 60 + bound);
-            Check.same("it is kept", clock.setBound(0), bound);
-        }
-        for (int wrong : new int[] {-1, 31}) {
-            Check.fails("the bound " + wrong, ARGUMENT, () -> first.setBound(wrong));
-        }
-    }
-
-    private static void atMultiplesOf60() {
-        for (int minute : new int[] {60, 120, 900, 3600, 86400}) {
-            MinsterClock clock = Clocks.at(minute - 2);
-            clock.owe(5);
-            Check.same("one before " + minute, Clocks.shownBehind(clock, 1), minute - 1);
-            Check.same("not yet " + minute, clock.owe(0), 5);
-            Check.same("at " + minute, Clocks.shownBehind(clock, 1), minute + 5);
-            Check.same("done at " + minute, clock.owe(0), 0);
-        }
-        MinsterClock clock = Clocks.owing(12);
-        // 60 becomes 65; 55 seconds on 120 becomes 125, 55 seconds on 180 becomes 182; 58 seconds on it is 240.
-        Check.same("within one call, one before", Clocks.shownBehind(clock, 60 + 55 + 54), 179);
-        Check.same("within one call", Clocks.shownBehind(clock, 1), 182);
-        Check.same("nothing left", Clocks.shownBehind(clock, 58), 240);
-        MinsterClock long9 = Clocks.owing(5);
-        long9.setBeat(9, 1);
-        Check.same("within a beat: 6 beats are 54", Clocks.shownBehind(long9, 6), 54);
-        Check.same("within a beat: 60 becomes 65, and 3 more", Clocks.shownBehind(long9, 1), 68);
-    }
-
-    private static void onlyWhenASecondPasses() {
-        MinsterClock clock = Clocks.at(60);
-        clock.owe(5);
-        clock.setBound(30);
-        Check.same("60 is shown, but no second passes", clock.shown(), 60);
-        clock.setBeat(1, 20);
-        Check.same("nor by a part of one", Clocks.shownBehind(clock, 19), 60);
-        Check.same("the next second makes it 61", Clocks.shownBehind(clock, 1), 61);
-        Check.same("all is still owed", clock.owe(0), 5);
-        MinsterClock first = Clocks.owing(5);
-        Check.same("the number 0 at first was made by no second", Clocks.shownBehind(first, 1), 1);
-        // A correction by as much as 30 never comes to a multiple of 60 itself.
-        MinsterClock most = Clocks.owing(600);
-        most.setBound(30);
-        Check.same("once for a minute", Clocks.shownBehind(most, 60), 90);
-        Check.same("and again for the next", Clocks.shownBehind(most, 30), 150);
-    }
-
-    private static void wheneverItComesAgain() {
-        MinsterClock clock = Clocks.owing(-12);
-        Check.same("60 for the first time", Clocks.shownBehind(clock, 60), 55);
-        Check.same("59 again", Clocks.shownBehind(clock, 4), 59);
-        Check.same("60 for the second time", Clocks.shownBehind(clock, 1), 55);
-        Check.same("60 for the third time", Clocks.shownBehind(clock, 5), 58);
-        Check.same("60 for the fourth time", Clocks.shownBehind(clock, 2), 60);
-        Check.same("nothing left", Clocks.shownBehind(clock, 1), 61);
-        MinsterClock one = Clocks.owing(-12);
-        Check.same("the same in one call, one before", Clocks.shownBehind(one, 60 + 5 + 5 + 1), 59);
-        Check.same("the same in one call", Clocks.shownBehind(one, 1), 60);
-    }
-
-    private static void afterTheStrike() {
-        MinsterClock back = Clocks.at(3599);
-        back.setSilence(0, 1);
-        back.owe(-5);
-        Check.same("1:00 strikes as 1, which is not silent", back.pass(1), 1);
-        Check.same("and goes back behind it", Clocks.time(back), "0:59");
-        MinsterClock silent = Clocks.at(3599);
-        silent.setSilence(1, 2);
-        silent.owe(-5);
-        Check.same("1:00 is silent", silent.pass(1), 0);
-        Check.same("and goes back all the same", silent.shown(), 3595);
-        MinsterClock forward = Clocks.at(899);
-        forward.owe(5);
-        Check.same("0:15 strikes", forward.pass(1), 1);
-        Check.same("and goes forward", forward.shown(), 905);
-        Check.same("struck as the mark 1", forward.markAt(0), 1);
-        MinsterClock none = Clocks.at(59);
-        none.owe(5);
-        Check.same("where nothing strikes", none.pass(1), 0);
-        Check.same("it is corrected as well", none.shown(), 65);
-        MinsterClock off = Clocks.at(899);
-        off.setQuarters(false);
-        off.owe(5);
-        Check.same("a quarter while they are off", off.pass(1), 0);
-        Check.same("it is corrected as well", off.shown(), 905);
-    }
-
-    private static void atMostTheBound() {
-        // The bound, what is owed, what is shown for 60, and what is owed then.
-        int[][] rows = {{5, 4, 64, 0}, {5, 5, 65, 0}, {5, 6, 65, 1}, {5, -4, 56, 0}, {5, -5, 55, 0}, {5, -6, 55, -1},
-            {0, 1, 60, 1}, {0, -1, 60, -1}, {0, 0, 60, 0}, {1, 1, 61, 0}, {1, -1, 59, 0}, {1, 2, 61, 1},
-            {1, -2, 59, -1}, {30, 29, 89, 0}, {30, 30, 90, 0}, {30, 31, 90, 1}, {30, -29, 31, 0}, {30, -30, 30, 0},
-            {30, -31, 30, -1}, {30, 3600, 90, 3570}, {30, -3600, 30, -3570}, {0, 3600, 60, 3600}};
-        for (int[] row : rows) {
-            MinsterClock clock = Clocks.owing(row[1]);
-            clock.setBound(row[0]);
-            String told = "the bound " + row[0] + ", owed " + row[1];
-            Check.same(told + ", one before", Clocks.shownBehind(clock, 59), 59);
-            Check.same(told, Clocks.shownBehind(clock, 1), row[2]);
-            Check.same(told + ", left", clock.owe(0), row[3]);
+    private static void numerators() {
+        for (int numerator = 1; numerator <= 20; numerator++) {
+            MinsterClock clock = new MinsterClock();
+            clock.setBeat(numerator, 20);
+            Check.same("20 beats of " + numerator + " / 20", Clocks.shownBehind(clock, 20), numerator);
+            clock.setBeat(numerator, 1);
+            Check.same("a beat of " + numerator + " / 1", Clocks.shownBehind(clock, 1), 2 * numerator);
         }
     }
 
-    private static void notOwedAnyMore() {
-        MinsterClock forward = Clocks.owing(3600);
-        forward.setBound(30);
-        // 60 seconds to the first correction and 30 to each of the 119 others.
-        Check.same("3600 forward, one before the last", Clocks.shownBehind(forward, 60 + 119 * 30 - 1), 7199);
-        Check.same("30 left", forward.owe(0), 30);
-        Check.same("3600 forward", Clocks.shownBehind(forward, 1), 7230);
-        Check.same("nothing left", forward.owe(0), 0);
-        Check.same("and no more", Clocks.shownBehind(forward, 30), 7260);
-        MinsterClock back = Clocks.owing(-3600);
-        back.setBound(30);
-        Check.same("3600 back, one before the last", Clocks.shownBehind(back, 60 + 119 * 30 - 1), 59);
-        Check.same("30 left", back.owe(0), -30);
-        Check.same("3600 back", Clocks.shownBehind(back, 1), 30);
-        Check.same("nothing left", back.owe(0), 0);
-        Check.same("and no more", Clocks.shownBehind(back, 30), 60);
-        MinsterClock turned = Clocks.owing(7);
-        turned.pass(60);
-        Check.same("2 are left of 7, so -3", turned.owe(-5), -3);
-        Check.same("back now", Clocks.shownBehind(turned, 55), 117);
-        Check.same("nothing left", turned.owe(0), 0);
+    private static void denominators() {
+        for (int denominator = 1; denominator <= 20; denominator++) {
+            MinsterClock clock = new MinsterClock();
+            clock.setBeat(1, denominator);
+            for (int beat = 1; beat < denominator; beat++) {
+                Check.same(beat + " / " + denominator, Clocks.shownBehind(clock, 1), 0);
+            }
+            Check.same("a second of 1 / " + denominator, Clocks.shownBehind(clock, 1), 1);
+            clock.setBeat(20, denominator);
+            Check.same("20 seconds of 20 / " + denominator, Clocks.shownBehind(clock, denominator), 21);
+        }
     }
 
     private static void numeratorBefore() {
@@ -388,6 +291,27 @@ final class GoingSentences {
             Check.same("setBeat(" + pair[0] + ", " + pair[1] + ")", clock.setBeat(pair[0], pair[1]), before);
             before = pair[0];
         }
+    }
+
+    /** 500 beats of 20 seconds, at once and one by one: 10000 seconds with 11 marks, of them the hours 1 and 2. */
+    private static void letsBeatsPass() {
+        MinsterClock atOnce = Clocks.byMarks();
+        MinsterClock oneByOne = Clocks.byMarks();
+        int strokes = 0;
+        for (int beat = 1; beat <= 500; beat++) {
+            strokes += oneByOne.pass(1);
+        }
+        Check.same("the strokes at once", atOnce.pass(500), 3 + 18);
+        Check.same("the strokes one by one", strokes, 3 + 18);
+        for (MinsterClock clock : new MinsterClock[] {atOnce, oneByOne}) {
+            Check.same("beats", clock.beats(), 500L);
+            Check.same("the wheel 0", clock.moved(0), 500);
+            Check.same("the hands", clock.shown() + " " + Clocks.time(clock), "10000 2:46");
+            Check.same("the marks", clock.strikes() + " " + clock.markAt(0), "11 11");
+            Check.same("the bells", clock.strokes(0) + " " + clock.strokes(1), "3 18");
+        }
+        atOnce.pass(4000);
+        Check.same("the date, behind 90000 seconds", atOnce.shown() + " " + Clocks.date(atOnce), "90000 2000-1-2 6");
     }
 
     private static void beatsThatPass() {
@@ -445,6 +369,58 @@ final class GoingSentences {
         Check.same("beats of 20 seconds, and a correction", clock.beats(), 22L);
     }
 
+    private static void shownAndNotPassed() {
+        MinsterClock clock = Clocks.owing(7);
+        Check.same("60 passed, 5 corrected", Clocks.shownBehind(clock, 60), 65);
+        Check.same("115 passed, 7 corrected", Clocks.shownBehind(clock, 55), 122);
+        Check.same("nobody moves it by asking", clock.shown(), 122);
+        Check.same("the time is of this number", Clocks.time(clock), "0:2");
+        clock.setDate(2024, 2, 29);
+        Check.same("nor does another date", clock.shown(), 122);
+        clock.setBeat(1, 2);
+        Check.same("a half more is not shown", Clocks.shownBehind(clock, 1), 122);
+        Check.same("a whole one is", Clocks.shownBehind(clock, 1), 123);
+    }
+
+    private static void hourShown() {
+        MinsterClock noon = Clocks.at(13 * 3600);
+        Check.same("13, and not 1 as it strikes", noon.hour(), 13);
+        Check.same("1 of the next day, and not 25", Clocks.at(25 * 3600).hour(), 1);
+        MinsterClock back = Clocks.at(7199);
+        back.owe(-2);
+        back.pass(1);
+        Check.same("back below 2:00", back.hour(), 1);
+        back.pass(1);
+        Check.same("still below it", back.hour(), 1);
+        back.pass(1);
+        Check.same("2:00 for good", back.hour(), 2);
+        MinsterClock forward = Clocks.at(3539);
+        forward.setBound(30);
+        forward.owe(30);
+        forward.pass(1 + 29);
+        Check.same("3540, 30 on and 29 more: 0:59:59", forward.hour(), 0);
+        forward.pass(1);
+        Check.same("1:00, 3570 seconds behind the beginning", forward.hour(), 1);
+    }
+
+    private static void minuteShown() {
+        Check.same("0 of the hour 1, and not 60", Clocks.at(3600).minute(), 0);
+        Check.same("30 of the hour 13", Clocks.at(13 * 3600 + 30 * 60).minute(), 30);
+        MinsterClock back = Clocks.at(119);
+        back.owe(-2);
+        back.pass(1);
+        Check.same("back below 0:02", back.minute(), 1);
+        back.pass(2);
+        Check.same("0:02 for good", back.minute(), 2);
+        MinsterClock forward = Clocks.at(59);
+        forward.setBound(30);
+        forward.owe(30);
+        forward.pass(1 + 29);
+        Check.same("60, 30 on and 29 more: 0:01:59", forward.minute(), 1);
+        forward.pass(1);
+        Check.same("0:02, 90 seconds behind the beginning", forward.minute(), 2);
+    }
+
     private static void secondsShown() {
         MinsterClock clock = new MinsterClock();
         Check.same("nothing yet", clock.shown(), 0);
@@ -482,72 +458,5 @@ final class GoingSentences {
             clock.pass(1);
             Check.same("the next minute", clock.minute(), minute == 59 ? 0 : minute + 1);
         }
-    }
-
-    private static void secondsToOwe() {
-        for (int most : new int[] {600, -600, 599, -599, 0, 1, -1}) {
-            Check.same("owe(" + most + ")", new MinsterClock().owe(most), most);
-        }
-        for (int wrong : new int[] {601, -601, Integer.MAX_VALUE, Integer.MIN_VALUE}) {
-            Twins.refuses("owe(" + wrong + ")", Clocks::live, ARGUMENT, clock -> clock.owe(wrong));
-        }
-        // What would be owed then is no excuse for seconds that are out of range.
-        Check.fails("owe(601) of -600", ARGUMENT, () -> Clocks.owing(-600).owe(601));
-        Check.fails("owe(-601) of 600", ARGUMENT, () -> Clocks.owing(600).owe(-601));
-    }
-
-    private static void owedAfterTheCall() {
-        MinsterClock clock = new MinsterClock();
-        Check.same("owe(0) at first", clock.owe(0), 0);
-        Check.same("600", clock.owe(600), 600);
-        Check.same("600 - 600", clock.owe(-600), 0);
-        Check.same("0 - 1", clock.owe(-1), -1);
-        clock.pass(60);
-        Check.same("what is not owed any more", clock.owe(0), 0);
-    }
-
-    private static void tooMuchOwed() {
-        Check.same("3000 + 600", Clocks.owing(3000).owe(600), 3600);
-        Check.same("3001 + 599", Clocks.owing(3001).owe(599), 3600);
-        Check.same("-3000 - 600", Clocks.owing(-3000).owe(-600), -3600);
-        Check.same("3600 + 0", Clocks.owing(3600).owe(0), 3600);
-        Check.same("-3600 + 600", Clocks.owing(-3600).owe(600), -3000);
-        // What is owed, and the least that makes it too much.
-        int[][] rows = {{3600, 1}, {3599, 2}, {3001, 600}, {-3600, -1}, {-3599, -2}, {-3001, -600}};
-        for (int[] row : rows) {
-            Check.fails(row[0] + " and " + row[1], ARGUMENT, () -> Clocks.owing(row[0]).owe(row[1]));
-            Check.same("one less", Clocks.owing(row[0]).owe(row[1] - Integer.signum(row[1])),
-                    Integer.signum(row[1]) * 3600);
-        }
-        Twins.refuses("owe(1) of 3600", GoingSentences::owes3600, ARGUMENT, clock -> clock.owe(1));
-        Twins.refuses("owe(601) of 3600", GoingSentences::owes3600, ARGUMENT, clock -> clock.owe(601));
-        MinsterClock paid = Clocks.owing(3600);
-        paid.pass(60);
-        Check.fails("5 are paid, 6 are too much", ARGUMENT, () -> paid.owe(6));
-        Check.same("5 are not", paid.owe(5), 3600);
-    }
-
-    private static void owes3600(MinsterClock clock) {
-        for (int call = 0; call < 6; call++) {
-            clock.owe(600);
-        }
-    }
-
-    private static void boundBefore() {
-        MinsterClock clock = new MinsterClock();
-        Check.same("5 at first", clock.setBound(0), 5);
-        Check.same("0", clock.setBound(30), 0);
-        Check.same("30", clock.setBound(30), 30);
-        Check.fails("one that is refused", ARGUMENT, () -> clock.setBound(31));
-        Check.same("is not the one before", clock.setBound(1), 30);
-    }
-
-    private static void wrongBound() {
-        for (int wrong : new int[] {-1, 31, -5, Integer.MIN_VALUE, Integer.MAX_VALUE}) {
-            Twins.refuses("setBound(" + wrong + ")", Clocks::live, ARGUMENT, clock -> clock.setBound(wrong));
-        }
-        MinsterClock clock = new MinsterClock();
-        Check.same("the bound 0", clock.setBound(0), 5);
-        Check.same("the bound 30", clock.setBound(30), 0);
     }
 }

@@ -26,25 +26,30 @@ final class LogSentences {
     static void test(Sentences s) {
         s.terms(34, "The latest 40 marks that struck are kept, with their strokes.", LogSentences::latest40);
         s.terms(35, "The latest 40 marks that struck are kept, with their strokes.", LogSentences::strokesOfLatest40);
+        s.promise(32, "Returns how many strokes a bell has had.", LogSentences::strokesHad);
         s.promise(32, "`bell`: the bell, 0 to 8", LogSentences::bells);
         s.promise(32, "Returns the number of strokes.", LogSentences::strokesOfBells);
         s.promise(32, "Throws `IndexOutOfBoundsException` if there is no such bell", LogSentences::noSuchBell);
         s.promise(33, "Returns the number of marks that struck.", LogSentences::marksThatStruck);
         s.promise(33, "Returns the number of marks.", LogSentences::moreThanAreKept);
+        s.promise(34, "Returns a mark of the log.", LogSentences::marksOfTheLog);
         s.promise(34, "`rank`: the rank, 0 for the latest one", LogSentences::ranks);
         s.promise(34, "Returns the number of the mark.", LogSentences::numbersOfMarks);
         s.promise(34, "Throws `NoSuchElementException` if there is no such rank among those that are kept",
                 LogSentences::noSuchRank);
+        s.promise(35, "Returns the strokes of a mark of the log.", LogSentences::strokesInTheLog);
+        s.promise(35, "`mark`: the number of the mark", LogSentences::marksByTheirNumbers);
         s.promise(35, "Returns the number of strokes, those of a tune included.", LogSentences::strokesOfMarks);
         s.promise(35, "Throws `NoSuchElementException` if the mark is not among those that are kept",
                 LogSentences::noSuchMark);
         testAhead(s);
+        s.promise(38, "Returns the share of the marks that were reached that struck.", LogSentences::shareOfReached);
         s.promise(38, "Returns the number of marks that struck divided by the greatest number of a mark that was"
                 + " reached, both converted to float.", LogSentences::share);
         s.promise(38, "Throws `ArithmeticException` if no mark but the mark 0 was reached", LogSentences::noShare);
-        s.promise(39, "the marks of the log fall from rank to rank; the strokes and the movement of the last wheel are"
-                + " the same by both ways for 1, 60 and 700 beats; and the strokes of all bells together are those of"
-                + " all strikes so far.", LogSentences::onceAtTheEnds);
+        s.promise(39, "Returns whether each hour is struck once: the marks of the log fall from rank to rank; the"
+                + " strokes and the movement of the last wheel are the same by both ways for 1, 60 and 700 beats; and"
+                + " the strokes of all bells together are those of all strikes so far.", LogSentences::onceAtTheEnds);
         s.promise(39, "Returns whether this holds.", LogSentences::soundAndSpoilt);
     }
 
@@ -96,6 +101,27 @@ final class LogSentences {
             Check.fails("the one before the eldest of " + marks, ELEMENT, () -> clock.strokesAt(gone));
             Check.fails("one behind the latest of " + marks, ELEMENT, () -> clock.strokesAt(marks + 1));
         }
+    }
+
+    private static void strokesHad() {
+        MinsterClock clock = Clocks.withDrums(1);
+        clock.setPin(0, 0, 1, true);
+        clock.setPin(0, 9, 1, true);
+        clock.setPin(0, 9, 4, true);
+        clock.setTune(2, 0);
+        clock.pass(3600);
+        Check.same("0 at the hour", clock.strokes(0), 1);
+        Check.same("1 at the quarters", clock.strokes(1), 6);
+        clock.pass(3600);
+        Check.same("0, all hours together", clock.strokes(0), 1 + 2);
+        Check.same("1 by quarters and by pins", clock.strokes(1), 6 + 6 + 2);
+        Check.same("4 by a pin", clock.strokes(4), 1);
+        clock.setPin(0, 9, 4, false);
+        clock.setTune(2, -1);
+        clock.setSilence(0, 23);
+        clock.setQuarters(false);
+        Check.same("what it has had it keeps", clock.strokes(4) + " " + clock.strokes(1), "1 14");
+        Check.same("another clock has its own", new MinsterClock().strokes(1), 0);
     }
 
     private static void bells() {
@@ -164,6 +190,24 @@ final class LogSentences {
         }
     }
 
+    private static void marksOfTheLog() {
+        MinsterClock clock = Clocks.byMarks();
+        clock.pass(45 * 3);
+        clock.setQuarters(false);
+        clock.pass(45 * 6);
+        clock.setQuarters(true);
+        clock.pass(45);
+        int[] due = {10, 8, 4, 3, 2, 1};
+        for (int rank = 0; rank < due.length; rank++) {
+            Check.same("those that struck alone, the rank " + rank, clock.markAt(rank), due[rank]);
+        }
+        Check.fails("and no more", ELEMENT, () -> clock.markAt(due.length));
+        Check.same("asking takes none away", clock.markAt(0), 10);
+        clock.strokesAhead(5000);
+        clock.strokesByBeats(5000);
+        Check.same("nor do marks ahead come into it", clock.markAt(0), 10);
+    }
+
     private static void ranks() {
         MinsterClock clock = Clocks.struck(5);
         Check.same("the rank 0", clock.markAt(0), 5);
@@ -204,6 +248,39 @@ final class LogSentences {
         Check.same("markAt(39) of 40", Clocks.struck(40).markAt(39), 1);
         Check.same("markAt(39) of 41", Clocks.struck(41).markAt(39), 2);
         Check.fails("markAt(40) of 41", ELEMENT, () -> Clocks.struck(41).markAt(40));
+    }
+
+    private static void strokesInTheLog() {
+        MinsterClock clock = Clocks.withDrums(1);
+        clock.setPin(0, 0, 1, true);
+        clock.setTune(1, 0);
+        clock.setBeat(20, 1);
+        int[] due = {1, 2, 3, 1 + 1, 1, 2, 3, 2};
+        for (int mark = 1; mark <= due.length; mark++) {
+            int next = mark;
+            Check.fails("not yet in the log, " + mark, ELEMENT, () -> clock.strokesAt(next));
+            Check.same("as pass told, " + mark, clock.pass(45), due[mark - 1]);
+            Check.same("the mark " + mark, clock.strokesAt(mark), due[mark - 1]);
+        }
+        for (int mark = 1; mark <= due.length; mark++) {
+            Check.same("the mark " + mark + ", later", clock.strokesAt(mark), due[mark - 1]);
+        }
+    }
+
+    private static void marksByTheirNumbers() {
+        MinsterClock clock = Clocks.struck(60);
+        Check.same("21 is the eldest, a quarter", clock.strokesAt(21), 1);
+        Check.same("48 is the hour 12", clock.strokesAt(48), 12);
+        Check.same("60 is the hour 15, as 3", clock.strokesAt(60), 3);
+        Check.fails("0 is a rank, and no mark of the log", ELEMENT, () -> clock.strokesAt(0));
+        Check.fails("12 is an hour, and no mark of the log", ELEMENT, () -> clock.strokesAt(12));
+        Check.fails("39 + 60 is none", ELEMENT, () -> clock.strokesAt(99));
+        clock.setQuarters(false);
+        clock.pass(45 * 8);
+        Check.same("68 is the hour 17, as 5", clock.strokesAt(68), 5);
+        Check.fails("67 did not strike", ELEMENT, () -> clock.strokesAt(67));
+        Check.fails("22 gave way to 68", ELEMENT, () -> clock.strokesAt(22));
+        Check.same("23 is the eldest now", clock.strokesAt(23), 3);
     }
 
     private static void strokesOfMarks() {
@@ -360,6 +437,25 @@ final class LogSentences {
             Twins.refuses(call + "(" + beats + ")", Clocks::live, ARGUMENT, clock -> way.find(clock, beats));
         }
         Twins.keeps(call + "(5000)", Clocks::live, clock -> way.find(clock, 5000));
+    }
+
+    private static void shareOfReached() {
+        MinsterClock clock = new MinsterClock();
+        clock.pass(900);
+        Check.same("all", clock.struckShare(), 1.0f);
+        clock.setSilence(0, 1);
+        clock.pass(900);
+        Check.same("one of two", clock.struckShare(), 0.5f);
+        clock.pass(899);
+        Check.same("a mark that is not reached yet does not count", clock.struckShare(), 0.5f);
+        clock.owe(-10);
+        clock.pass(1);
+        Check.same("one of three", clock.struckShare(), 0.33333334f);
+        clock.pass(5);
+        Check.same("which is reached once, though it is shown twice", clock.struckShare(), 0.33333334f);
+        clock.pass(5 + 900);
+        Check.same("two of four", clock.struckShare(), 0.5f);
+        Check.same("by marks, and not by strokes", Clocks.struck(3).struckShare(), 1.0f);
     }
 
     private static void share() {

@@ -68,34 +68,43 @@ final class Sentences {
         return String.join(" ", sections.getOrDefault(section, List.of())).replaceAll("\\s+", " ");
     }
 
-    /** Checks that no sentence which names a boundary was left without a test. */
+    /** Checks that no sentence was left without a test. */
     void allAreTested() {
         for (int promise = 1; promise <= PROMISES; promise++) {
             String section = "Promise " + promise;
             Check.same(section + " has a test", tested.containsKey(section), true);
-            for (String line : sections.getOrDefault(section, List.of())) {
-                if (namesBoundary(line)) {
-                    isTested(section, line.startsWith("- ") ? line.substring(2) : line);
+            for (String sentence : sentencesOf(section)) {
+                isTested(section, sentence);
+            }
+        }
+        for (String section : List.of("What it is", "Terms")) {
+            for (String sentence : textOf(section).split("(?<=\\.) ")) {
+                // A lone word names its paragraph, and these long ones only say which calls stand together.
+                if (sentence.strip().contains(" ") && !sentence.startsWith("Ahead of the calls")) {
+                    isTested(section, sentence.strip());
                 }
             }
         }
-        for (String sentence : textOf("Terms").split("(?<=\\.) ")) {
-            // A lone word names its paragraph, and these long ones only say which calls stand together.
-            if (sentence.strip().contains(" ") && !sentence.startsWith("Ahead of the calls")) {
-                isTested("Terms", sentence.strip());
-            }
-        }
     }
 
-    private static boolean namesBoundary(String line) {
-        return line.startsWith("Throws ") || line.startsWith("Returns ") || line.matches("- `.*[0-9].*");
+    /** The sentences of a promise: what stands behind the call, what each line tells of an argument, and the others. */
+    private List<String> sentencesOf(String section) {
+        List<String> sentences = new ArrayList<>();
+        String paragraphs = String.join("\n", sections.getOrDefault(section, List.of())).replace("\n- ", "\n\n- ");
+        for (String paragraph : paragraphs.split("\n\\s*\n")) {
+            String sentence = paragraph.replaceAll("\\s+", " ").strip();
+            if (sentence.startsWith("`")) {
+                sentence = sentence.substring(sentence.indexOf("`: ") + 3);
+            }
+            if (!sentence.isEmpty()) {
+                sentences.add(sentence.startsWith("- ") ? sentence.substring(2) : sentence);
+            }
+        }
+        return sentences;
     }
 
     private void isTested(String section, String sentence) {
-        boolean isIn = false;
-        for (String one : tested.getOrDefault(section, new TreeSet<>())) {
-            isIn |= one.contains(sentence);
-        }
+        boolean isIn = tested.getOrDefault(section, new TreeSet<>()).contains(sentence);
         Check.same(section + ", a test of: " + sentence, isIn, true);
     }
 }

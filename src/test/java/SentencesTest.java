@@ -12,6 +12,7 @@ public final class SentencesTest {
         Sentences sentences = new Sentences(Path.of("../shared/DOC.md"));
         TrainSentences.test(sentences);
         GoingSentences.test(sentences);
+        CorrectionsSentences.test(sentences);
         DatesSentences.test(sentences);
         StrikesSentences.test(sentences);
         DrumsSentences.test(sentences);

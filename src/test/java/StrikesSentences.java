@@ -37,11 +37,13 @@ final class StrikesSentences {
                     reachedButNotStruck(clock -> clock.setQuarters(false));
                     reachedButNotStruck(clock -> clock.setSilence(0, 1));
                 });
+        s.promise(25, "Sets the silent hours.", StrikesSentences::setsSilentHours);
         s.promise(25, "`from`: the first silent hour, 0 to 23", StrikesSentences::firstSilentHour);
         s.promise(25, "`to`: the hour that is not silent any more, 0 to 23", StrikesSentences::firstLoudHour);
         s.promise(25, "Returns the number of silent hours.", StrikesSentences::numberOfSilentHours);
         s.promise(25, "Throws `IllegalArgumentException` if an hour is out of range", StrikesSentences::noHour);
         s.promise(26, "Sets whether the quarters are on; at first they are.", StrikesSentences::quartersAtFirst);
+        s.promise(26, "`isOn`: whether they are on from now on", StrikesSentences::onFromNowOn);
         s.promise(26, "Returns whether they were on before.", StrikesSentences::quartersBefore);
     }
 
@@ -265,6 +267,25 @@ final class StrikesSentences {
         Check.same("the share", clock.struckShare(), 1f / 3f);
     }
 
+    private static void setsSilentHours() {
+        MinsterClock clock = Clocks.byMarks();
+        clock.setSilence(1, 3);
+        Check.same("the hour 0 is not silent: 1 + 2 + 3", clock.pass(45 * 3), 6);
+        Check.same("the hours 1 and 2 are", clock.pass(45 * 8), 0);
+        Check.same("the hour 3 is not", clock.pass(45), 3);
+        clock.setSilence(4, 5);
+        clock.setSilence(5, 6);
+        Check.same("the latest ones count: the hour 4 is not silent", clock.pass(45 * 4), 6 + 4);
+        Check.same("up to its end", clock.pass(45 * 3), 6);
+        Check.same("the hour 5 is", clock.pass(45 * 4), 0);
+        Check.same("what was silent stays unstruck", clock.strikes(), 3 + 1 + 4 + 3);
+        Check.same("the hours alone", clock.strokes(0), 3 + 4);
+        clock.setSilence(6, 8);
+        Check.same("from now on", clock.pass(45), 0);
+        clock.setSilence(0, 0);
+        Check.same("and not any more", clock.pass(45 * 2), 1 + 2);
+    }
+
     private static void firstSilentHour() {
         for (int from : new int[] {0, 1, 22, 23}) {
             MinsterClock clock = Clocks.at(from * 3600);
@@ -324,6 +345,24 @@ final class StrikesSentences {
         Check.same("off", clock.pass(900), 0);
         clock.setQuarters(true);
         Check.same("on again", clock.pass(900), 3);
+    }
+
+    private static void onFromNowOn() {
+        MinsterClock clock = Clocks.byMarks();
+        clock.setQuarters(false);
+        Check.same("off, the first hour", clock.pass(45 * 4), 1);
+        Check.same("off stays off", clock.pass(45 * 4), 2);
+        clock.setQuarters(true);
+        Check.same("those that were off do not strike later", clock.strokes(1), 0);
+        Check.same("on, the third hour", clock.pass(45 * 4), 1 + 2 + 3 + 3);
+        Check.same("on stays on", clock.pass(45 * 4), 1 + 2 + 3 + 4);
+        clock.setQuarters(true);
+        Check.same("on once more is still on", clock.pass(45), 1);
+        clock.setQuarters(false);
+        clock.setQuarters(false);
+        Check.same("off twice is still off", clock.pass(45 * 3), 5);
+        Check.same("those that were struck stay struck", clock.strokes(1), 6 + 6 + 1);
+        Check.same("another clock has its own", Clocks.struck(3).strokes(1), 6);
     }
 
     private static void quartersBefore() {

@@ -8,11 +8,19 @@ final class TrainSentences {
     private static final String NO_WHEEL = "Throws `IndexOutOfBoundsException` if there is no such wheel";
     private static final String NO_NUMBER = "Throws `IllegalArgumentException` if the number is out of range";
     private static final String BEATS = "`beats`: the number of beats, 1 to 5000";
+    private static final String WHEEL = "`wheel`: the number of the wheel";
 
     /** A question about a wheel, asked for a number of beats if it takes one. */
     private interface Question {
         Object ask(MinsterClock clock, int wheel, int beats);
     }
+
+    // The teeth and leaves of 5 further wheels, and what each of the 6 is behind 3600 beats, and behind as many more.
+    private static final int[][] UNLIKE_WHEELS = {{12, 10}, {24, 6}, {20, 8}, {100, 10}, {50, 10}};
+    private static final Object[] MOVED = {3600, 1200, 600, 200, 100, 10};
+    private static final Object[] TURNS = {120, 100, 25, 10, 1, 0};
+    private static final Object[] BEATS_FOR_TURNS = {30.0, 36.0, 144.0, 360.0, 3600.0, 18000.0};
+    private static final Object[] MOVED_AHEAD = {7200, 2400, 1200, 400, 200, 20};
 
     private TrainSentences() {
     }
@@ -38,14 +46,19 @@ final class TrainSentences {
         s.promise(2, "Throws `IllegalArgumentException` if a number is out of range", TrainSentences::wrongWheel);
         s.promise(2, "Throws `IllegalStateException` if there are 6 wheels", TrainSentences::seventhWheel);
         s.promise(3, "Returns the number of wheels.", TrainSentences::numberOfWheels);
+        s.promise(4, "Returns by how many teeth a wheel has moved.", TrainSentences::teethAndNothingElse);
+        s.promise(4, WHEEL, () -> ofItsNumber((clock, wheel, beats) -> clock.moved(wheel), MOVED));
         s.promise(4, "Returns the number of teeth.", TrainSentences::teethMoved);
         s.promise(4, NO_WHEEL, () -> noSuchWheel("moved", (clock, wheel, beats) -> clock.moved(wheel)));
+        s.promise(5, "Returns how many whole turns a wheel has made.", TrainSentences::turnsMade);
+        s.promise(5, WHEEL, () -> ofItsNumber((clock, wheel, beats) -> clock.wholeTurns(wheel), TURNS));
         s.promise(5, "Returns the number of teeth by which it has moved, divided by its teeth, rounded down.",
                 TrainSentences::wholeTurns);
         s.promise(5, NO_WHEEL, () -> noSuchWheel("wholeTurns", (clock, wheel, beats) -> clock.wholeTurns(wheel)));
         s.promise(6, "Returns the beats for a turn of a wheel: 30.0 for the wheel 0, and for each further one that of"
                 + " the wheel before it times its teeth, divided by the leaves of its pinion, in double arithmetic, in"
                 + " this order.", TrainSentences::beatsForTurn);
+        s.promise(6, WHEEL, () -> ofItsNumber((clock, wheel, beats) -> clock.beatsForTurn(wheel), BEATS_FOR_TURNS));
         s.promise(6, "Returns the beats.", TrainSentences::beatsForTurnAtTheEnds);
         s.promise(6, NO_WHEEL, () -> noSuchWheel("beatsForTurn", (clock, wheel, beats) -> clock.beatsForTurn(wheel)));
         testAhead(s);
@@ -54,12 +67,14 @@ final class TrainSentences {
     private static void testAhead(Sentences s) {
         Question ahead = MinsterClock::movedAhead;
         Question byBeats = MinsterClock::movedByBeats;
+        s.promise(7, WHEEL, () -> ofItsNumber(ahead, MOVED_AHEAD));
         s.promise(7, BEATS, () -> beatsAtTheEnds(ahead));
         s.promise(7, "Returns by how many teeth a wheel will have moved behind some beats, found by ratios.",
                 () -> movedLater(ahead));
         s.promise(7, "Returns the number of teeth.", () -> teethAhead(ahead));
         s.promise(7, NO_WHEEL, () -> noSuchWheel("movedAhead", ahead));
         s.promise(7, NO_NUMBER, () -> noSuchBeats("movedAhead", ahead));
+        s.promise(8, WHEEL, () -> ofItsNumber(byBeats, MOVED_AHEAD));
         s.promise(8, BEATS, () -> beatsAtTheEnds(byBeats));
         s.promise(8, "Returns the same number, found beat by beat.", TrainSentences::sameByBothWays);
         s.promise(8, "Returns the number of teeth.", () -> {
@@ -266,6 +281,62 @@ final class TrainSentences {
         }
         Check.fails("a seventh is not counted", STATE, () -> clock.addWheel(20, 10));
         Check.same("wheels, at most", clock.wheels(), 6);
+    }
+
+    /** Each number asks about a wheel of its own, in whatever order they are asked. */
+    private static void ofItsNumber(Question question, Object[] due) {
+        MinsterClock clock = new MinsterClock();
+        for (int[] wheel : UNLIKE_WHEELS) {
+            clock.addWheel(wheel[0], wheel[1]);
+        }
+        clock.pass(3600);
+        for (int wheel = 0; wheel <= 5; wheel++) {
+            Check.same("the wheel " + wheel, question.ask(clock, wheel, 3600), due[wheel]);
+        }
+        for (int wheel = 5; wheel >= 0; wheel--) {
+            Check.same("the wheel " + wheel + " once more", question.ask(clock, wheel, 3600), due[wheel]);
+        }
+    }
+
+    private static void teethAndNothingElse() {
+        MinsterClock clock = new MinsterClock();
+        clock.addWheel(60, 15);
+        clock.pass(359);
+        Check.same("359 beats: 359 teeth, and not 11 turns", clock.moved(0), 359);
+        Check.same("359 * 15 / 30 teeth, and not 2 turns of 60", clock.moved(1), 179);
+        clock.pass(1);
+        Check.same("360 * 15 / 30 teeth", clock.moved(1), 180);
+        clock.addWheel(6, 24);
+        Check.same("another wheel moves none before it", clock.moved(0) + " " + clock.moved(1), "360 180");
+        clock.setBeat(20, 1);
+        clock.setBound(30);
+        clock.owe(600);
+        clock.setDate(1999, 12, 31);
+        Check.same("nor what is set", clock.moved(0) + " " + clock.moved(1), "360 180");
+        clock.pass(4);
+        Check.same("teeth are beats, and neither seconds nor corrections", clock.moved(0), 364);
+        Check.same("364 * 15 / 30", clock.moved(1), 182);
+        Check.same("2 * 24 / 60", clock.moved(2), 0);
+    }
+
+    private static void turnsMade() {
+        MinsterClock clock = new MinsterClock();
+        clock.pass(5000);
+        Check.same("5000 / 30", clock.wholeTurns(0), 166);
+        clock.addWheel(6, 24);
+        clock.addWheel(120, 6);
+        Check.same("a wheel that was added late has made none", clock.wholeTurns(1), 0);
+        clock.pass(7);
+        Check.same("7 * 24 / 30 = 5 of 6", clock.wholeTurns(1), 0);
+        clock.pass(1);
+        Check.same("8 * 24 / 30 = 6 of 6: sooner than the wheel before it", clock.wholeTurns(1), 1);
+        Check.same("the wheel before it: 5008 / 30", clock.wholeTurns(0), 166);
+        clock.pass(141);
+        Check.same("119 of 6, by whole turns alone", clock.wholeTurns(1), 19);
+        clock.pass(1);
+        Check.same("120 of 6", clock.wholeTurns(1), 20);
+        Check.same("120 of 120, as a tooth drives a tooth", clock.wholeTurns(2), 1);
+        Check.same("asking turns nothing", clock.wholeTurns(2), 1);
     }
 
     private static void teethMoved() {
