@@ -219,9 +219,14 @@ final class DrumsSentences {
         for (int step = 0; step <= 31; step++) {
             Check.same("the pin of step " + step, clock.bellAt(0, step), 1 + step % 8);
         }
+        MinsterClock same = Clocks.withDrums(1);
         for (int step = 0; step <= 31; step++) {
-            Check.same("taken from step " + step, clock.setPin(0, step, 1 + step % 8, false), true);
-            Check.same("those of other steps are left", clock.pins(0), 31 - step);
+            Check.same("the same bell, step " + step, same.setPin(0, step, 4, true), false);
+            Check.same("with a pin for each step", same.pins(0), step + 1);
+        }
+        for (int step = 0; step <= 31; step++) {
+            Check.same("taken from step " + step, same.setPin(0, step, 4, false), true);
+            Check.same("those of other steps are left", same.pins(0), 31 - step);
         }
     }
 
