@@ -1,6 +1,5 @@
 import java.io.IOException;
-import java.io.StringWriter;
-import java.net.URI;
+import java.lang.reflect.InvocationTargetException;
 import java.net.URL;
 import java.net.URLClassLoader;
 import java.nio.file.Files;
@@ -10,11 +9,6 @@ import java.util.List;
 import java.util.TreeSet;
 import java.util.regex.Matcher;
 import java.util.regex.Pattern;
-import javax.tools.DiagnosticCollector;
-import javax.tools.JavaCompiler;
-import javax.tools.JavaFileObject;
-import javax.tools.SimpleJavaFileObject;
-import javax.tools.ToolProvider;
 
 /** What README.md says: each line of its examples must answer as its comment says, and its tables must be whole. */
 public final class ReadmeTest {
@@ -24,22 +18,7 @@ public final class ReadmeTest {
     private static final Pattern OF_FACE = Pattern.compile("    public \\w+ (\\w+)\\((.*?)\\)(?: throws (.*))?;");
     private static final String NEW_CLOCK = "MinsterClock clock = new MinsterClock();";
 
-    /** A program that is held as a text, as the compiler wants it. */
-    private static final class Source extends SimpleJavaFileObject {
-        private final String text;
-
-        Source(String name, String text) {
-            super(URI.create("string:///" + name + ".java"), Kind.SOURCE);
-            this.text = text;
-        }
-
-        @Override
-        public CharSequence getCharContent(boolean ignoresErrors) {
-            return text;
-        }
-    }
-
-    public static void main(String[] args) throws IOException, ReflectiveOperationException {
+    public static void main(String[] args) throws IOException, InterruptedException, ReflectiveOperationException {
         List<String> readme = Files.readAllLines(Path.of("README.md"));
         examples(readme);
         tables(readme, Files.readAllLines(Path.of("../shared/DOC.md")));
@@ -47,15 +26,16 @@ public final class ReadmeTest {
         Check.end("ReadmeTest");
     }
 
-    private static void examples(List<String> readme) throws IOException, ReflectiveOperationException {
+    private static void examples(List<String> readme)
+            throws IOException, InterruptedException, ReflectiveOperationException {
         StringBuilder program = new StringBuilder("public final class Examples {\n");
         program.append("public static void run(java.util.List<String[]> rows) {\n");
         int calls = 0;
         boolean isExample = false;
         for (String line : readme) {
             if (line.startsWith("```")) {
+                program.append(isExample ? "}\n" : line.equals("```java") ? "{\n" : "");
                 isExample = line.equals("```java");
-                program.append(isExample ? "{\n" : line.equals("```") ? "}\n" : "");
             } else if (isExample) {
                 program.append(asked(line)).append("\n");
                 calls += line.startsWith(NEW_CLOCK) ? 0 : 1;
@@ -95,26 +75,24 @@ public final class ReadmeTest {
         return "rows.add(new String[] {" + told + ", " + got + ", \"" + due + "\"});";
     }
 
-    private static List<String[]> run(String program) throws IOException, ReflectiveOperationException {
+    private static List<String[]> run(String program)
+            throws IOException, InterruptedException, ReflectiveOperationException {
         List<String[]> rows = new ArrayList<>();
-        JavaCompiler compiler = ToolProvider.getSystemJavaCompiler();
-        Check.same("this java has a compiler", compiler != null, true);
-        if (compiler == null) {
-            return rows;
-        }
         Path folder = Files.createTempDirectory("readme");
-        DiagnosticCollector<JavaFileObject> faults = new DiagnosticCollector<>();
-        List<String> options = List.of("-d", folder.toString(), "-cp", System.getProperty("java.class.path"));
-        boolean compiles = compiler.getTask(new StringWriter(), null, faults, options, null,
-                List.of(new Source("Examples", program))).call();
-        Check.same("the examples compile", faults.getDiagnostics().toString(), "[]");
-        if (compiles) {
+        Path source = Files.writeString(folder.resolve("Examples.java"), program);
+        Process compiler = new ProcessBuilder("javac", "-encoding", "UTF-8", "-d", folder.toString(), "-cp",
+                System.getProperty("java.class.path"), source.toString()).inheritIO().start();
+        Check.same("what javac answers for the examples", compiler.waitFor(), 0);
+        if (compiler.exitValue() == 0) {
             URL[] places = {folder.toUri().toURL()};
             try (URLClassLoader loader = new URLClassLoader(places, ReadmeTest.class.getClassLoader())) {
                 loader.loadClass("Examples").getMethod("run", List.class).invoke(null, rows);
+            } catch (InvocationTargetException thrown) {
+                Check.same("the examples behind the first " + rows.size(), Check.told(thrown.getCause()), "an answer");
             }
         }
         Files.deleteIfExists(folder.resolve("Examples.class"));
+        Files.delete(source);
         Files.delete(folder);
         return rows;
     }
