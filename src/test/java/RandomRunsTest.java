@@ -73,7 +73,8 @@ public final class RandomRunsTest {
             case "setQuarters":
                 return new Object[] {below(3) != 0};
             case "setPin":
-                return new Object[] {about(0, 3), style % 2 == 0 ? about(0, 3) : about(0, 31), about(1, 8), below(4) != 0};
+                int step = about(0, style % 2 == 0 ? 3 : 31);
+                return new Object[] {about(0, 3), step, about(1, 8), below(4) != 0};
             case "pins":
                 return new Object[] {about(0, 3)};
             case "bellAt":
@@ -85,7 +86,8 @@ public final class RandomRunsTest {
             case "markAt":
                 return new Object[] {about(0, 39)};
             case "strokesAt":
-                return new Object[] {clock.strikes() > 0 && below(8) != 0 ? clock.markAt(0) - between(-1, 45) : about(0, 5)};
+                boolean isNearLatest = clock.strikes() > 0 && below(8) != 0;
+                return new Object[] {isNearLatest ? clock.markAt(0) - between(-1, 45) : about(0, 5)};
             default:
                 return new Object[0];
         }

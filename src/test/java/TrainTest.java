@@ -99,7 +99,7 @@ public final class TrainTest {
         Check.fails("moved(3)", INDEX, () -> clock.moved(3));
         Check.fails("moved(least)", INDEX, () -> clock.moved(Integer.MIN_VALUE));
         Check.fails("moved(most)", INDEX, () -> clock.moved(Integer.MAX_VALUE));
-        // Each wheel rounds down by itself: 8 * 7 / 30 = 1, so the next one has 1 * 24 / 6 = 4, not 8 * 7 * 24 / 180 = 7.
+        // Each wheel rounds down by itself: 8 * 7 / 30 = 1, so the next has 1 * 24 / 6 = 4, not 8 * 7 * 24 / 180 = 7.
         MinsterClock rounding = new MinsterClock();
         rounding.addWheel(6, 7);
         rounding.addWheel(6, 24);
